@@ -1,0 +1,1955 @@
+import java.util.Arrays;
+
+/** Halls laid with square carpets; the document DOC.md says, promise by promise, what each call does. */
+public final class CarpetHalls {
+
+    public static final int NONE = -1;
+
+    private static final int BAD_NUMBER = -1;
+    private static final int NO_SUCH = -2;
+    private static final int CANT_BE = -3;
+    private static final int NO_ROOM = -5;
+    private static final int BAD_TEXT = -6;
+
+    private static final int GRID = 12;
+    private static final int CELLS = GRID * GRID;
+    private static final int MOST_CARPETS = 9;
+    private static final int MOST_KIND = 3;
+    private static final int MOST_PILE = 9;
+    private static final int MOST_PAID = 9999;
+    private static final int MOST_SEEN = 6;
+    private static final int MOST_LAWS = 6;
+    private static final int MOST_CLAUSES = 12;
+    private static final int MOST_UNDOS = 16;
+    private static final int IMAGES = 2;
+    private static final int LONGEST_TAPE = 400;
+    private static final int FED_BYTES = 20;
+
+    private static final int YEAR = 0;
+    private static final int MOTHS = 1;
+    private static final int MOOD = 2;
+    private static final int TERMS = 3;
+    private static final int LAST_YEAR = 999;
+    private static final int MOST_MOTHS = 10;
+    private static final int MOST_MOOD = 9;
+
+    /** The four deeds, by the numbers that undo() tells them with. */
+    private static final int LAY = 0;
+    private static final int ROLL = 1;
+    private static final int MIRROR = 2;
+    private static final int PASS = 3;
+
+    private final Stand now = new Stand();
+    private final Stand[] images = new Stand[IMAGES];
+    private final boolean[] kept = new boolean[IMAGES];
+    private final Floor paper = new Floor();
+    private final Floor sheet = new Floor();
+    private final Tape tape = new Tape();
+    private final Reader reader = new Reader();
+    private final Text errand = new Text();
+    private final Reckoner clerk = new Reckoner();
+    private final Judge judge = new Judge();
+    private final Past past = new Past();
+    private final Search search = new Search();
+    private final Chance chance = new Chance();
+    private final int[] refused = new int[5];
+    private int status = 0;
+    private int fault = NONE;
+    private int fluff = 0;
+    private int stopped = NONE;
+
+    public CarpetHalls() {
+        for (int k = 0; k < IMAGES; k++) {
+            images[k] = new Stand();
+        }
+    }
+
+    // ---- carpets, the hall, the terms
+
+    public int carpet(int side, int kind, int pile) {
+        int number = now.floor.add(side, kind, pile);
+        if (number >= 0) {
+            past.clear();
+        }
+        return answer(number);
+    }
+
+    public int of(int carpet, int what) {
+        Floor floor = now.floor;
+        if (!floor.has(carpet)) {
+            return NONE;
+        }
+        switch (what) {
+            case 0: return floor.side[carpet];
+            case 1: return floor.kind[carpet];
+            case 2: return floor.pile[carpet];
+            case 3: return floor.x[carpet];
+            case 4: return floor.y[carpet];
+            case 5: return floor.isLaid(carpet) ? judge.wearOf(now.forcedLaw(), floor, carpet) : NONE;
+            default: return NONE;
+        }
+    }
+
+    public int hall(int wide, int high) {
+        if (wide < 1 || wide > GRID || high < 1 || high > GRID) {
+            return answer(BAD_NUMBER);
+        }
+        if (now.floor.laidCarpets() > 0) {
+            return answer(CANT_BE);
+        }
+        now.floor.wide = wide;
+        now.floor.high = high;
+        past.clear();
+        return answer(wide * high);
+    }
+
+    public int at(int x, int y) {
+        return now.floor.carpetOn(x, y);
+    }
+
+    public int asks(int carpet, int x, int y, int what) {
+        Floor floor = now.floor;
+        if (!floor.has(carpet) || !onGrid(x) || !onGrid(y)) {
+            return NONE;
+        }
+        switch (what) {
+            case 0: return judge.costOf(now.forcedLaw(), floor, carpet, x, y);
+            case 1: return judge.isBarred(now.forcedLaw(), floor, carpet, x, y) ? 1 : 0;
+            case 2: return canLie(floor, carpet, x, y) ? 1 : 0;
+            default: return NONE;
+        }
+    }
+
+    public int terms(int what, int value) {
+        if (what < 0 || what >= TERMS || value < 0 || value > mostOfTerm(what)) {
+            return answer(BAD_NUMBER);
+        }
+        int was = now.floor.terms[what];
+        now.floor.terms[what] = value;
+        past.clear();
+        return answer(was);
+    }
+
+    // ---- the tape and what is read from it
+
+    public int feed(int a, int b, int c, int d, int e) {
+        if (tape.length + FED_BYTES > LONGEST_TAPE) {
+            return NONE;
+        }
+        tape.addFour(a);
+        tape.addFour(b);
+        tape.addFour(c);
+        tape.addFour(d);
+        tape.addFour(e);
+        return tape.length;
+    }
+
+    public int end(int n) {
+        if (n < 0 || n > tape.length) {
+            return NONE;
+        }
+        tape.length = n;
+        return n;
+    }
+
+    public int row() {
+        if (tape.length == 0) {
+            return answer(BAD_TEXT);
+        }
+        int came = 0;
+        int lost = 0;
+        for (int i = 0; i < tape.length; i += 3) {
+            if (i + 2 < tape.length && now.floor.add(tape.bytes[i], tape.bytes[i + 1], tape.bytes[i + 2]) >= 0) {
+                came++;
+            } else {
+                lost++;
+            }
+        }
+        fluff = lost;
+        tape.length = 0;
+        past.clear();
+        return answer(came);
+    }
+
+    public int fluff() {
+        return fluff;
+    }
+
+    public int law() {
+        if (now.laws >= MOST_LAWS) {
+            tape.length = 0;
+            return answer(NO_ROOM);
+        }
+        fault = reader.read(tape, now.law[now.laws], false);
+        tape.length = 0;
+        if (fault != NONE) {
+            return answer(BAD_TEXT);
+        }
+        now.laws++;
+        return answer(now.laws - 1);
+    }
+
+    public int orders() {
+        stopped = NONE;
+        fault = reader.read(tape, errand, true);
+        tape.length = 0;
+        if (fault != NONE) {
+            return answer(BAD_TEXT);
+        }
+        return answer(runErrand());
+    }
+
+    public int fault() {
+        return fault;
+    }
+
+    public int stopped() {
+        return stopped;
+    }
+
+    public int force(int law) {
+        if (law != NONE && now.lawOf(law) == null) {
+            return answer(NO_SUCH);
+        }
+        int was = now.forced;
+        now.forced = law;
+        // NONE is an answer here, not a refusal, so it doesn't go through answer().
+        status = 0;
+        return was;
+    }
+
+    // ---- deeds
+
+    public int lay(int carpet, int x, int y) {
+        return answer(doLay(carpet, x, y));
+    }
+
+    public int roll(int carpet) {
+        return answer(doRoll(carpet));
+    }
+
+    public int mirror() {
+        return answer(doMirror());
+    }
+
+    public int pass() {
+        return answer(doPass());
+    }
+
+    public int undo() {
+        return answer(past.takeBack(now.floor));
+    }
+
+    // ---- what is bare and how it could be filled
+
+    public int bare(int what) {
+        Floor floor = now.floor;
+        if (what == 0) {
+            return floor.bareCells();
+        }
+        int cell = floor.firstBareCell();
+        if (cell == NONE) {
+            return NONE;
+        }
+        return what == 1 ? cell % GRID : what == 2 ? cell / GRID : NONE;
+    }
+
+    public int fill(int i) {
+        search.prepare(now.floor, now.forcedLaw(), judge);
+        if (search.number(1) == 0) {
+            return NONE;
+        }
+        return i == NONE ? search.rowLength() : search.rowCarpet(i);
+    }
+
+    public int ways() {
+        search.prepare(now.floor, now.forcedLaw(), judge);
+        return search.number(Integer.MAX_VALUE);
+    }
+
+    public int cheapest() {
+        search.prepare(now.floor, now.forcedLaw(), judge);
+        return search.leastCost();
+    }
+
+    public int halls(int i) {
+        if (i < NONE) {
+            return NONE;
+        }
+        int area = now.floor.areaWithoutRags();
+        int found = 0;
+        for (int wide = 1; wide <= GRID && area > 0; wide++) {
+            int high = area / wide;
+            if (high > GRID || high * wide != area || !allFill(wide, high)) {
+                continue;
+            }
+            if (found == i) {
+                return 100 * wide + high;
+            }
+            found++;
+        }
+        return i == NONE ? found : NONE;
+    }
+
+    public int inner() {
+        return now.floor.innerHalls();
+    }
+
+    public int crosses() {
+        return now.floor.crossPoints();
+    }
+
+    public int currents(int y, int what) {
+        if (y < 0 || y > now.floor.high || what < 0 || what > 1) {
+            return NONE;
+        }
+        return now.floor.sidesAtLine(y, what == 1);
+    }
+
+    public int fitting(int side) {
+        return side < 1 || side > GRID ? NONE : now.floor.placesFor(side);
+    }
+
+    public int alike() {
+        return now.floor.twosOfOneSide();
+    }
+
+    public int free() {
+        int bits = 0;
+        for (int c = 0; c < now.floor.carpets; c++) {
+            if (now.floor.isLaid(c) && setsFree(c)) {
+                bits |= 1 << c;
+            }
+        }
+        return bits;
+    }
+
+    // ---- what was seen
+
+    public int seen(int x, int y, int side) {
+        if (!onGrid(x) || !onGrid(y) || side < 1 || side > GRID) {
+            return answer(BAD_NUMBER);
+        }
+        if (now.seen >= MOST_SEEN) {
+            return answer(NO_ROOM);
+        }
+        now.seenX[now.seen] = x;
+        now.seenY[now.seen] = y;
+        now.seenSide[now.seen] = side;
+        now.seen++;
+        return answer(now.seen);
+    }
+
+    public int forget() {
+        int was = now.seen;
+        now.seen = 0;
+        return was;
+    }
+
+    public int floors() {
+        search.prepare(now.floor, now.forcedLaw(), judge);
+        return search.heed(now) ? search.number(Integer.MAX_VALUE) : 0;
+    }
+
+    public int look(int what) {
+        if (what < 0 || what > 2) {
+            return NONE;
+        }
+        search.prepare(now.floor, now.forcedLaw(), judge);
+        if (!search.heed(now)) {
+            return NONE;
+        }
+        int cell = search.bestLook();
+        if (cell == NONE) {
+            return NONE;
+        }
+        return what == 0 ? cell % GRID : what == 1 ? cell / GRID : search.mostAt(cell);
+    }
+
+    // ---- chances, laws compared, years on paper
+
+    public long few(int k, int n) {
+        if (k < 1 || k > Chance.MOST_K || n < 0 || n > Chance.MOST_N) {
+            return NONE;
+        }
+        return chance.fewer(k, n, now.floor.terms[MOTHS]);
+    }
+
+    public int compare(int law) {
+        Text other = now.lawOf(law);
+        if (law != NONE && other == null) {
+            return NONE;
+        }
+        search.prepare(now.floor, other, judge);
+        return search.leastCost();
+    }
+
+    public int years(int seed, int n) {
+        if (seed < 0 || seed > 1000000 || n < 1 || n > 60) {
+            return answer(BAD_NUMBER);
+        }
+        if (now.floor.carpets == 0) {
+            return answer(CANT_BE);
+        }
+        paper.copyFrom(now.floor);
+        int s = seed;
+        for (int i = 0; i < n && paper.terms[YEAR] < LAST_YEAR; i++) {
+            s = drawYear(s);
+        }
+        return answer(paper.bareCells());
+    }
+
+    public int drawn(int carpet, int what) {
+        if (!paper.has(carpet)) {
+            return NONE;
+        }
+        switch (what) {
+            case 0: return paper.pile[carpet];
+            case 1: return paper.x[carpet];
+            case 2: return paper.y[carpet];
+            default: return NONE;
+        }
+    }
+
+    // ---- images, counts
+
+    public int image(int k) {
+        if (k < 0 || k >= IMAGES) {
+            return answer(BAD_NUMBER);
+        }
+        images[k].copyFrom(now);
+        kept[k] = true;
+        return answer(0);
+    }
+
+    public int back(int k) {
+        if (k < 0 || k >= IMAGES) {
+            return answer(BAD_NUMBER);
+        }
+        if (!kept[k]) {
+            return answer(NO_SUCH);
+        }
+        now.copyFrom(images[k]);
+        past.clear();
+        return answer(0);
+    }
+
+    public int count(int what) {
+        Floor floor = now.floor;
+        switch (what) {
+            case 0: return floor.carpets;
+            case 1: return floor.laidCarpets();
+            case 2: return floor.rags();
+            case 3: return floor.paid;
+            case 4: return now.seen;
+            case 5: return now.laws;
+            case 6: return past.size;
+            case 7: return tape.length;
+            case 8: case 9: case 10: case 11: case 12: return refused[what - 8];
+            case 13: return now.forced;
+            case 14: case 15: case 16: return floor.terms[what - 14];
+            case 17: return floor.wide;
+            case 18: return floor.high;
+            default: return NONE;
+        }
+    }
+
+    public int status() {
+        return status;
+    }
+
+    // ---- what the face shares
+
+    private static boolean onGrid(int v) {
+        return v >= 0 && v < GRID;
+    }
+
+    private static int mostOfTerm(int what) {
+        return what == YEAR ? LAST_YEAR : what == MOTHS ? MOST_MOTHS : MOST_MOOD;
+    }
+
+    /** Every answer below 0 that comes through here is a refusal, and is counted as one. */
+    private int answer(int told) {
+        status = told < 0 ? told : 0;
+        switch (told) {
+            case BAD_NUMBER: refused[0]++; break;
+            case NO_SUCH: refused[1]++; break;
+            case CANT_BE: refused[2]++; break;
+            case NO_ROOM: refused[3]++; break;
+            case BAD_TEXT: refused[4]++; break;
+            default: break;
+        }
+        return told;
+    }
+
+    private boolean canLie(Floor floor, int carpet, int x, int y) {
+        return floor.hasPlaceFor(carpet, x, y) && !judge.isBarred(now.forcedLaw(), floor, carpet, x, y);
+    }
+
+    private int doLay(int carpet, int x, int y) {
+        Floor floor = now.floor;
+        if (!onGrid(x) || !onGrid(y)) {
+            return BAD_NUMBER;
+        }
+        if (!floor.has(carpet)) {
+            return NO_SUCH;
+        }
+        if (!canLie(floor, carpet, x, y)) {
+            return CANT_BE;
+        }
+        int cost = judge.costOf(now.forcedLaw(), floor, carpet, x, y);
+        past.record(LAY, floor);
+        floor.x[carpet] = x;
+        floor.y[carpet] = y;
+        floor.paid = Math.min(MOST_PAID, floor.paid + cost);
+        return cost;
+    }
+
+    private int doRoll(int carpet) {
+        Floor floor = now.floor;
+        if (!floor.has(carpet)) {
+            return NO_SUCH;
+        }
+        if (!floor.isLaid(carpet)) {
+            return CANT_BE;
+        }
+        past.record(ROLL, floor);
+        floor.rollUp(carpet);
+        return floor.bareCells();
+    }
+
+    private int doMirror() {
+        past.record(MIRROR, now.floor);
+        return now.floor.turnOver();
+    }
+
+    private int doPass() {
+        if (now.floor.terms[YEAR] >= LAST_YEAR) {
+            return CANT_BE;
+        }
+        past.record(PASS, now.floor);
+        return now.floor.wearAYear(judge, now.forcedLaw());
+    }
+
+    private int runErrand() {
+        past.save(now.floor);
+        clerk.words[Reader.DONE] = 0;
+        clerk.words[Reader.LATEST] = NONE;
+        for (int clause = 0; clause < errand.clauses; clause++) {
+            int times = errand.mark(clause, Text.TIMES);
+            for (int i = 0; i < times; i++) {
+                if (!runOnce(clause)) {
+                    past.restore(now.floor);
+                    stopped = clause;
+                    return CANT_BE;
+                }
+            }
+        }
+        return clerk.words[Reader.DONE];
+    }
+
+    /** Whether ORDERS can go on behind it; a clause whose "if" is not so can be passed over. */
+    private boolean runOnce(int clause) {
+        clerk.setOrderWords(now.floor);
+        if (!clerk.isSo(errand, clause)) {
+            return true;
+        }
+        int told = doDeed(clause);
+        if (told < 0) {
+            return false;
+        }
+        if (errand.mark(clause, Text.KIND) == LAY) {
+            clerk.words[Reader.LATEST] = told;
+        }
+        clerk.words[Reader.DONE]++;
+        return true;
+    }
+
+    private int doDeed(int clause) {
+        int kind = errand.mark(clause, Text.KIND);
+        if (kind == MIRROR) {
+            return doMirror();
+        }
+        if (kind == PASS) {
+            return doPass();
+        }
+        int carpet = (int) clerk.sumOf(errand, clause, 0);
+        if (clerk.broken) {
+            return CANT_BE;
+        }
+        if (kind == ROLL) {
+            return doRoll(carpet);
+        }
+        int x = (int) clerk.sumOf(errand, clause, 1);
+        if (clerk.broken) {
+            return CANT_BE;
+        }
+        int y = (int) clerk.sumOf(errand, clause, 2);
+        return clerk.broken ? CANT_BE : doLay(carpet, x, y);
+    }
+
+    private boolean allFill(int wide, int high) {
+        sheet.copyFrom(now.floor);
+        for (int c = 0; c < sheet.carpets; c++) {
+            sheet.rollUp(c);
+        }
+        sheet.wide = wide;
+        sheet.high = high;
+        search.prepare(sheet, now.forcedLaw(), judge);
+        return search.number(1) > 0;
+    }
+
+    private boolean setsFree(int carpet) {
+        sheet.copyFrom(now.floor);
+        sheet.rollUp(carpet);
+        search.prepare(sheet, now.forcedLaw(), judge);
+        return search.number(2) == 1 && !search.fillsAlone(carpet);
+    }
+
+    private static int nextDraw(int s) {
+        return (s * 1103 + 12345) % 1000003;
+    }
+
+    /** One of the YEARS on paper; answers s as its draws leave it. */
+    private int drawYear(int s) {
+        int first = nextDraw(s);
+        int second = nextDraw(first);
+        int third = nextDraw(second);
+        int last = nextDraw(third);
+        int carpet = paper.carpets > 0 ? first % paper.carpets : 0;
+        int x = paper.wide > 0 ? second % paper.wide : 0;
+        int y = paper.high > 0 ? third % paper.high : 0;
+        if (last % 3 == 2) {
+            paper.rollUp(carpet);
+        } else if (canLie(paper, carpet, x, y)) {
+            paper.x[carpet] = x;
+            paper.y[carpet] = y;
+        }
+        paper.wearAYear(judge, now.forcedLaw());
+        return last;
+    }
+
+    /** The hall with its carpets, its terms and what was paid. */
+    static final class Floor {
+        final int[] side = new int[MOST_CARPETS];
+        final int[] kind = new int[MOST_CARPETS];
+        final int[] pile = new int[MOST_CARPETS];
+        /** NONE in both: rolled. */
+        final int[] x = new int[MOST_CARPETS];
+        final int[] y = new int[MOST_CARPETS];
+        final int[] terms = new int[TERMS];
+        /** Of each row the covered cells as bits, as the latest drawRows() found them. */
+        final int[] rows = new int[GRID];
+        int carpets = 0;
+        int wide = 8;
+        int high = 8;
+        int paid = 0;
+
+        Floor() {
+            terms[MOTHS] = 1;
+        }
+
+        void copyFrom(Floor other) {
+            System.arraycopy(other.side, 0, side, 0, MOST_CARPETS);
+            System.arraycopy(other.kind, 0, kind, 0, MOST_CARPETS);
+            System.arraycopy(other.pile, 0, pile, 0, MOST_CARPETS);
+            System.arraycopy(other.x, 0, x, 0, MOST_CARPETS);
+            System.arraycopy(other.y, 0, y, 0, MOST_CARPETS);
+            System.arraycopy(other.terms, 0, terms, 0, TERMS);
+            carpets = other.carpets;
+            wide = other.wide;
+            high = other.high;
+            paid = other.paid;
+        }
+
+        /** The new carpet's number, or what it is refused by. */
+        int add(int itsSide, int itsKind, int itsPile) {
+            if (itsSide < 1 || itsSide > GRID || itsKind < 0 || itsKind > MOST_KIND
+                    || itsPile < 0 || itsPile > MOST_PILE) {
+                return BAD_NUMBER;
+            }
+            if (carpets >= MOST_CARPETS) {
+                return NO_ROOM;
+            }
+            side[carpets] = itsSide;
+            kind[carpets] = itsKind;
+            pile[carpets] = itsPile;
+            x[carpets] = NONE;
+            y[carpets] = NONE;
+            carpets++;
+            return carpets - 1;
+        }
+
+        boolean has(int c) {
+            return c >= 0 && c < carpets;
+        }
+
+        boolean isLaid(int c) {
+            return has(c) && x[c] != NONE;
+        }
+
+        boolean isReady(int c) {
+            return has(c) && x[c] == NONE && pile[c] > 0;
+        }
+
+        int laidCarpets() {
+            int laid = 0;
+            for (int c = 0; c < carpets; c++) {
+                laid += isLaid(c) ? 1 : 0;
+            }
+            return laid;
+        }
+
+        int rags() {
+            int rags = 0;
+            for (int c = 0; c < carpets; c++) {
+                rags += pile[c] == 0 ? 1 : 0;
+            }
+            return rags;
+        }
+
+        int areaWithoutRags() {
+            int area = 0;
+            for (int c = 0; c < carpets; c++) {
+                area += pile[c] > 0 ? side[c] * side[c] : 0;
+            }
+            return area;
+        }
+
+        int bareCells() {
+            int cells = wide * high;
+            for (int c = 0; c < carpets; c++) {
+                cells -= isLaid(c) ? side[c] * side[c] : 0;
+            }
+            return cells;
+        }
+
+        int carpetOn(int px, int py) {
+            for (int c = 0; c < carpets; c++) {
+                if (isLaid(c) && px >= x[c] && px < x[c] + side[c] && py >= y[c] && py < y[c] + side[c]) {
+                    return c;
+                }
+            }
+            return NONE;
+        }
+
+        /** Whether it is rolled, no RAGS, and the cells it would cover are in the hall and bare. */
+        boolean hasPlaceFor(int c, int px, int py) {
+            if (!isReady(c) || px < 0 || py < 0 || px > wide - side[c] || py > high - side[c]) {
+                return false;
+            }
+            for (int other = 0; other < carpets; other++) {
+                if (isLaid(other) && px < x[other] + side[other] && x[other] < px + side[c]
+                        && py < y[other] + side[other] && y[other] < py + side[c]) {
+                    return false;
+                }
+            }
+            return true;
+        }
+
+        void rollUp(int c) {
+            if (has(c)) {
+                x[c] = NONE;
+                y[c] = NONE;
+            }
+        }
+
+        /** The hall mirrored; how many carpets are laid. */
+        int turnOver() {
+            int laid = 0;
+            for (int c = 0; c < carpets; c++) {
+                if (isLaid(c)) {
+                    x[c] = wide - x[c] - side[c];
+                    laid++;
+                }
+            }
+            return laid;
+        }
+
+        /** How many are rags by it. A carpet's wear asks its own pile alone, so each may lose at once. */
+        int wearAYear(Judge judge, Text law) {
+            int worn = 0;
+            for (int c = 0; c < carpets; c++) {
+                if (!isLaid(c)) {
+                    continue;
+                }
+                pile[c] = Math.max(0, pile[c] - judge.wearOf(law, this, c));
+                if (pile[c] == 0) {
+                    rollUp(c);
+                    worn++;
+                }
+            }
+            terms[YEAR]++;
+            return worn;
+        }
+
+        void drawRows() {
+            Arrays.fill(rows, 0);
+            for (int c = 0; c < carpets; c++) {
+                if (!isLaid(c)) {
+                    continue;
+                }
+                int bits = (1 << side[c]) - 1 << x[c];
+                for (int r = y[c]; r < y[c] + side[c] && r < GRID; r++) {
+                    rows[r] |= bits;
+                }
+            }
+        }
+
+        /** As y times GRID and x. */
+        int firstBareCell() {
+            drawRows();
+            int all = (1 << wide) - 1;
+            for (int r = 0; r < high && r < GRID; r++) {
+                int open = all & ~rows[r];
+                if (open != 0) {
+                    return r * GRID + Integer.numberOfTrailingZeros(open);
+                }
+            }
+            return NONE;
+        }
+
+        int placesFor(int ofSide) {
+            drawRows();
+            int square = (1 << ofSide) - 1;
+            int places = 0;
+            for (int r = 0; r + ofSide <= high; r++) {
+                int covered = 0;
+                for (int i = r; i < r + ofSide && i < GRID; i++) {
+                    covered |= rows[i];
+                }
+                for (int left = 0; left + ofSide <= wide; left++) {
+                    places += (covered >> left & square) == 0 ? 1 : 0;
+                }
+            }
+            return places;
+        }
+
+        /** Carpets never overlap, so a set of them covers a rectangle just if it has its bounds' area. */
+        int innerHalls() {
+            int found = 0;
+            for (int set = 0; set < 1 << carpets; set++) {
+                if (Integer.bitCount(set) >= 2 && isInnerHall(set)) {
+                    found++;
+                }
+            }
+            return found;
+        }
+
+        private boolean isInnerHall(int set) {
+            int left = GRID;
+            int right = 0;
+            int low = GRID;
+            int top = 0;
+            int area = 0;
+            for (int c = 0; c < carpets; c++) {
+                if ((set >> c & 1) == 0) {
+                    continue;
+                }
+                if (!isLaid(c)) {
+                    return false;
+                }
+                left = Math.min(left, x[c]);
+                right = Math.max(right, x[c] + side[c]);
+                low = Math.min(low, y[c]);
+                top = Math.max(top, y[c] + side[c]);
+                area += side[c] * side[c];
+            }
+            return (right - left) * (top - low) == area && area < wide * high;
+        }
+
+        /** A point at which four meet is the upper right corner of just one carpet: that one is counted. */
+        int crossPoints() {
+            int found = 0;
+            for (int c = 0; c < carpets; c++) {
+                if (isLaid(c) && threeMoreMeetAt(x[c] + side[c], y[c] + side[c])) {
+                    found++;
+                }
+            }
+            return found;
+        }
+
+        private boolean threeMoreMeetAt(int px, int py) {
+            int met = 0;
+            for (int c = 0; c < carpets; c++) {
+                if (!isLaid(c)) {
+                    continue;
+                }
+                boolean begins = x[c] == px;
+                boolean ends = x[c] + side[c] == px;
+                boolean above = y[c] == py;
+                boolean below = y[c] + side[c] == py;
+                met += begins && above || begins && below || ends && above ? 1 : 0;
+            }
+            return met == 3;
+        }
+
+        int sidesAtLine(int line, boolean upper) {
+            int sum = 0;
+            for (int c = 0; c < carpets; c++) {
+                if (isLaid(c) && y[c] + (upper ? side[c] : 0) == line) {
+                    sum += side[c];
+                }
+            }
+            return sum;
+        }
+
+        int twosOfOneSide() {
+            int twos = 0;
+            for (int a = 0; a < carpets; a++) {
+                for (int b = a + 1; b < carpets; b++) {
+                    twos += isLaid(a) && isLaid(b) && side[a] == side[b] ? 1 : 0;
+                }
+            }
+            return twos;
+        }
+    }
+
+    /** All that an image keeps. */
+    static final class Stand {
+        final Floor floor = new Floor();
+        final Text[] law = new Text[MOST_LAWS];
+        final int[] seenX = new int[MOST_SEEN];
+        final int[] seenY = new int[MOST_SEEN];
+        final int[] seenSide = new int[MOST_SEEN];
+        int laws = 0;
+        int forced = NONE;
+        int seen = 0;
+
+        Stand() {
+            for (int i = 0; i < MOST_LAWS; i++) {
+                law[i] = new Text();
+            }
+        }
+
+        Text lawOf(int number) {
+            return number >= 0 && number < laws ? law[number] : null;
+        }
+
+        Text forcedLaw() {
+            return lawOf(forced);
+        }
+
+        void copyFrom(Stand other) {
+            floor.copyFrom(other.floor);
+            for (int i = 0; i < other.laws; i++) {
+                law[i].copyFrom(other.law[i]);
+            }
+            System.arraycopy(other.seenX, 0, seenX, 0, MOST_SEEN);
+            System.arraycopy(other.seenY, 0, seenY, 0, MOST_SEEN);
+            System.arraycopy(other.seenSide, 0, seenSide, 0, MOST_SEEN);
+            laws = other.laws;
+            forced = other.forced;
+            seen = other.seen;
+        }
+    }
+
+    /** The bytes that were fed, each 0 to 255. */
+    static final class Tape {
+        final int[] bytes = new int[LONGEST_TAPE];
+        int length = 0;
+
+        void addFour(int number) {
+            for (int shift = 24; shift >= 0 && length < LONGEST_TAPE; shift -= 8) {
+                bytes[length] = number >>> shift & 255;
+                length++;
+            }
+        }
+    }
+
+    /** A law or orders as they were read: sums and tests in the order in which they are reckoned, and clauses. */
+    static final class Text {
+        /** A clause's marks: what it is, how often it runs, where its sums' code and its test's lie. */
+        static final int KIND = 0;
+        static final int TIMES = 1;
+        static final int SUMS = 2;
+        static final int TEST = 6;
+        static final int TEST_END = 7;
+        static final int MARKS = 8;
+
+        /** Codes up to WORD are numbers, up to ADD words. */
+        static final int WORD = 2000;
+        static final int ADD = 3000;
+        static final int SUBTRACT = 3001;
+        static final int MULTIPLY = 3002;
+        static final int DIVIDE = 3003;
+        static final int LEFT_OVER = 3004;
+        static final int LESS = 3005;
+        static final int MORE = 3006;
+        static final int SAME = 3007;
+        static final int NOT = 3008;
+        /** These two have the place to go on at behind them, if what follows can't matter any more. */
+        static final int AND = 3009;
+        static final int OR = 3010;
+
+        /** No token gives more codes than it has bytes. */
+        final int[] code = new int[LONGEST_TAPE];
+        final int[] marks = new int[MOST_CLAUSES * MARKS];
+        int size = 0;
+        int clauses = 0;
+
+        void clear() {
+            size = 0;
+            clauses = 0;
+        }
+
+        void copyFrom(Text other) {
+            System.arraycopy(other.code, 0, code, 0, other.size);
+            System.arraycopy(other.marks, 0, marks, 0, other.clauses * MARKS);
+            size = other.size;
+            clauses = other.clauses;
+        }
+
+        void add(int one) {
+            if (size < code.length) {
+                code[size] = one;
+                size++;
+            }
+        }
+
+        void setCode(int place, int one) {
+            if (place >= 0 && place < size) {
+                code[place] = one;
+            }
+        }
+
+        void openClause(int kind) {
+            if (clauses >= MOST_CLAUSES) {
+                return;
+            }
+            clauses++;
+            setMark(KIND, kind);
+            setMark(TIMES, 1);
+        }
+
+        /** Of the clause that was opened last. */
+        void setMark(int which, int value) {
+            int place = (clauses - 1) * MARKS + which;
+            if (place >= 0 && place < marks.length) {
+                marks[place] = value;
+            }
+        }
+
+        int mark(int clause, int which) {
+            int place = clause * MARKS + which;
+            return place >= 0 && place < marks.length ? marks[place] : 0;
+        }
+    }
+
+    /** Reads a tape as a law or as orders. */
+    static final class Reader {
+        static final int COSTS = 0;
+        static final int WEARS = 1;
+        static final int BARS = 2;
+
+        /** Places of the words of orders; each of the last two has a place for each carpet. */
+        static final int THIS_YEAR = 0;
+        static final int DONE = 1;
+        static final int LATEST = 2;
+        static final int BARE = 3;
+        static final int PAID = 4;
+        static final int PILE_OF = 5;
+        static final int LAID_OF = PILE_OF + MOST_CARPETS;
+        static final int ORDER_WORDS = LAID_OF + MOST_CARPETS;
+
+        private static final int MOST_PARTS = 50;
+        private static final int MOST_BRACKETS = 8;
+        private static final int MOST_NUMBER = 1000;
+        private static final int MOST_TIMES = 20;
+
+        private static final int AT_END = 0;
+        private static final int LETTERS = 1;
+        private static final int DIGITS = 2;
+        private static final int SIGN = 3;
+
+        private Tape tape;
+        private Text text;
+        private boolean ofOrders;
+        private int sort;
+        private int start;
+        private int stop;
+        private int parts;
+        private int brackets;
+        private int fault;
+
+        /** Where the FAULT is, or NONE. */
+        int read(Tape from, Text into, boolean asOrders) {
+            tape = from;
+            text = into;
+            ofOrders = asOrders;
+            stop = 0;
+            parts = 0;
+            brackets = 0;
+            fault = NONE;
+            text.clear();
+            step();
+            for (int n = 0; n < MOST_CLAUSES && fault == NONE; n++) {
+                readClause();
+                if (!takeSign(';')) {
+                    needEnd();
+                    return fault;
+                }
+            }
+            fail();
+            return fault;
+        }
+
+        private void step() {
+            int from = stop;
+            while (from < tape.length && tape.bytes[from] == ' ') {
+                from++;
+            }
+            start = from;
+            sort = sortAt(from);
+            int to = from < tape.length ? from + 1 : from;
+            while (sort != SIGN && to < tape.length && sortAt(to) == sort) {
+                to++;
+            }
+            stop = to;
+        }
+
+        private int sortAt(int place) {
+            if (place < 0 || place >= tape.length) {
+                return AT_END;
+            }
+            int one = tape.bytes[place];
+            return one >= 'a' && one <= 'z' ? LETTERS : one >= '0' && one <= '9' ? DIGITS : SIGN;
+        }
+
+        /** The first fault stays; behind it no token is taken any more, so that reading ends. */
+        private void fail() {
+            if (fault == NONE) {
+                fault = start;
+            }
+        }
+
+        private boolean isWord(String word) {
+            if (fault != NONE || sort != LETTERS || stop - start != word.length()) {
+                return false;
+            }
+            for (int i = 0; i < word.length() && start + i < tape.length; i++) {
+                if (tape.bytes[start + i] != word.charAt(i)) {
+                    return false;
+                }
+            }
+            return true;
+        }
+
+        private boolean takeWord(String word) {
+            boolean is = isWord(word);
+            if (is) {
+                step();
+            }
+            return is;
+        }
+
+        private boolean isSign(char sign) {
+            return fault == NONE && sort == SIGN && start < tape.length && tape.bytes[start] == sign;
+        }
+
+        private boolean takeSign(char sign) {
+            boolean is = isSign(sign);
+            if (is) {
+                step();
+            }
+            return is;
+        }
+
+        private void needWord(String word) {
+            if (!takeWord(word)) {
+                fail();
+            }
+        }
+
+        private void needEnd() {
+            if (sort != AT_END) {
+                fail();
+            }
+        }
+
+        private int needNumber(int least, int most) {
+            int value = 0;
+            for (int i = start; i < stop && i < tape.length && sort == DIGITS; i++) {
+                value = Math.min(value * 10 + tape.bytes[i] - '0', MOST_NUMBER + 1);
+            }
+            if (fault != NONE || sort != DIGITS || value < least || value > most) {
+                fail();
+                return least;
+            }
+            step();
+            return value;
+        }
+
+        private void readClause() {
+            int kind = ofOrders ? orderKind() : lawKind();
+            if (kind == NONE) {
+                fail();
+                return;
+            }
+            step();
+            text.openClause(kind);
+            readSums(kind);
+            if (ofOrders && takeWord("times")) {
+                text.setMark(Text.TIMES, needNumber(1, MOST_TIMES));
+            }
+            text.setMark(Text.TEST, text.size);
+            if (takeWord("if")) {
+                readTest();
+            }
+            text.setMark(Text.TEST_END, text.size);
+        }
+
+        private int lawKind() {
+            return isWord("costs") ? COSTS : isWord("wears") ? WEARS : isWord("bars") ? BARS : NONE;
+        }
+
+        private int orderKind() {
+            return isWord("lay") ? LAY : isWord("roll") ? ROLL : isWord("mirror") ? MIRROR
+                    : isWord("pass") ? PASS : NONE;
+        }
+
+        private void readSums(int kind) {
+            int sums = ofOrders ? (kind == LAY ? 3 : kind == ROLL ? 1 : 0) : (kind == BARS ? 0 : 1);
+            text.setMark(Text.SUMS, text.size);
+            for (int i = 0; i < sums; i++) {
+                if (i > 0) {
+                    needWord(i == 1 ? "at" : "by");
+                }
+                readSum();
+                text.setMark(Text.SUMS + 1 + i, text.size);
+            }
+        }
+
+        private void readTest() {
+            readBoth();
+            for (int n = 0; n < LONGEST_TAPE && takeWord("or"); n++) {
+                int hole = addJump(Text.OR);
+                readBoth();
+                text.setCode(hole, text.size);
+            }
+        }
+
+        private void readBoth() {
+            readPlain();
+            for (int n = 0; n < LONGEST_TAPE && takeWord("and"); n++) {
+                int hole = addJump(Text.AND);
+                readPlain();
+                text.setCode(hole, text.size);
+            }
+        }
+
+        private int addJump(int code) {
+            text.add(code);
+            text.add(0);
+            return text.size - 1;
+        }
+
+        private void readPlain() {
+            boolean turned = false;
+            // Two "not"s take each other away, also where the test is BROKEN: no level for each.
+            for (int n = 0; n < LONGEST_TAPE && takeWord("not"); n++) {
+                turned = !turned;
+            }
+            if (isSign('(')) {
+                openBracket();
+                if (fault == NONE) {
+                    readTest();
+                }
+                closeBracket(')');
+            } else {
+                readSum();
+                int code = takeComparison();
+                readSum();
+                text.add(code);
+            }
+            if (turned) {
+                text.add(Text.NOT);
+            }
+        }
+
+        private int takeComparison() {
+            int code = isSign('<') ? Text.LESS : isSign('>') ? Text.MORE : Text.SAME;
+            if (!takeSign('<') && !takeSign('>') && !takeSign('=')) {
+                fail();
+            }
+            return code;
+        }
+
+        private void openBracket() {
+            if (brackets >= MOST_BRACKETS) {
+                fail();
+            } else {
+                brackets++;
+                step();
+            }
+        }
+
+        private void closeBracket(char sign) {
+            brackets--;
+            if (!takeSign(sign)) {
+                fail();
+            }
+        }
+
+        private void readSum() {
+            readTerm();
+            for (int n = 0; n < LONGEST_TAPE && (isSign('+') || isSign('-')); n++) {
+                int code = isSign('+') ? Text.ADD : Text.SUBTRACT;
+                step();
+                readTerm();
+                text.add(code);
+            }
+        }
+
+        private void readTerm() {
+            readPart();
+            for (int n = 0; n < LONGEST_TAPE && (isSign('*') || isSign('/') || isSign('%')); n++) {
+                int code = isSign('*') ? Text.MULTIPLY : isSign('/') ? Text.DIVIDE : Text.LEFT_OVER;
+                step();
+                readPart();
+                text.add(code);
+            }
+        }
+
+        private void readPart() {
+            if (isSign('[')) {
+                openBracket();
+                if (fault == NONE) {
+                    readSum();
+                }
+                closeBracket(']');
+            } else if (parts >= MOST_PARTS) {
+                fail();
+            } else {
+                parts++;
+                readNumberOrWord();
+            }
+        }
+
+        private void readNumberOrWord() {
+            if (sort == DIGITS) {
+                text.add(needNumber(0, MOST_NUMBER));
+                return;
+            }
+            int place = ofOrders ? orderWord() : lawWord();
+            if (place == NONE) {
+                fail();
+                return;
+            }
+            step();
+            if (ofOrders && (place == PILE_OF || place == LAID_OF)) {
+                place += needNumber(0, MOST_CARPETS - 1);
+            }
+            text.add(Text.WORD + place);
+        }
+
+        private int lawWord() {
+            return isWord("carpet") ? 0 : isWord("side") ? 1 : isWord("kind") ? 2 : isWord("pile") ? 3
+                    : isWord("x") ? 4 : isWord("y") ? 5 : isWord("year") ? 6 : isWord("mood") ? 7 : NONE;
+        }
+
+        private int orderWord() {
+            return isWord("year") ? THIS_YEAR : isWord("done") ? DONE : isWord("latest") ? LATEST
+                    : isWord("bare") ? BARE : isWord("paid") ? PAID : isWord("pile") ? PILE_OF
+                    : isWord("laid") ? LAID_OF : NONE;
+        }
+    }
+
+    /** Reckons sums and tests; what the words stand for is set ahead. */
+    static final class Reckoner {
+        private static final long FARTHEST = 1000000000L;
+
+        /** Eight brackets with a sum, a term and a comparison open in each need far less. */
+        private final long[] stack = new long[64];
+        final int[] words = new int[Reader.ORDER_WORDS];
+        /** Whether the latest sum or test was BROKEN. */
+        boolean broken = false;
+
+        void setLawWords(Floor floor, int carpet, int x, int y) {
+            words[0] = carpet;
+            words[1] = floor.side[carpet];
+            words[2] = floor.kind[carpet];
+            words[3] = floor.pile[carpet];
+            words[4] = x;
+            words[5] = y;
+            words[6] = floor.terms[YEAR];
+            words[7] = floor.terms[MOOD];
+        }
+
+        /** DONE and LATEST stay: who runs the orders keeps them here. */
+        void setOrderWords(Floor floor) {
+            words[Reader.THIS_YEAR] = floor.terms[YEAR];
+            words[Reader.BARE] = floor.bareCells();
+            words[Reader.PAID] = floor.paid;
+            for (int c = 0; c < MOST_CARPETS; c++) {
+                words[Reader.PILE_OF + c] = floor.has(c) ? floor.pile[c] : NONE;
+                words[Reader.LAID_OF + c] = !floor.has(c) ? NONE : floor.isLaid(c) ? 1 : 0;
+            }
+        }
+
+        boolean isSo(Text text, int clause) {
+            int from = text.mark(clause, Text.TEST);
+            int to = text.mark(clause, Text.TEST_END);
+            broken = false;
+            return from == to || reckon(text, from, to) != 0 && !broken;
+        }
+
+        long sumOf(Text text, int clause, int which) {
+            return reckon(text, text.mark(clause, Text.SUMS + which), text.mark(clause, Text.SUMS + which + 1));
+        }
+
+        private long reckon(Text text, int from, int to) {
+            int top = 0;
+            broken = false;
+            for (int i = from; i < to && i < text.size && !broken; i++) {
+                int code = text.code[i];
+                if (code < Text.ADD) {
+                    broken = top >= stack.length;
+                    if (!broken) {
+                        stack[top] = code < Text.WORD ? code : wordAt(code - Text.WORD);
+                        top++;
+                    }
+                } else if (top < 1) {
+                    broken = true;
+                } else if (code == Text.NOT) {
+                    stack[top - 1] = 1 - stack[top - 1];
+                } else if (code == Text.AND || code == Text.OR) {
+                    i++;
+                    if ((stack[top - 1] != 0) == (code == Text.OR)) {
+                        i = i < text.size ? Math.max(i, text.code[i] - 1) : i;
+                    } else {
+                        top--;
+                    }
+                } else if (top < 2) {
+                    broken = true;
+                } else {
+                    top--;
+                    stack[top - 1] = join(code, stack[top - 1], stack[top]);
+                }
+            }
+            return stack[0];
+        }
+
+        private int wordAt(int place) {
+            return place >= 0 && place < words.length ? words[place] : 0;
+        }
+
+        private long join(int code, long a, long b) {
+            long told = 0;
+            switch (code) {
+                case Text.ADD: told = a + b; break;
+                case Text.SUBTRACT: told = a - b; break;
+                case Text.MULTIPLY: told = a * b; break;
+                case Text.DIVIDE: told = b == 0 ? FARTHEST + 1 : a / b; break;
+                case Text.LEFT_OVER: told = b == 0 ? FARTHEST + 1 : a % b; break;
+                case Text.LESS: told = a < b ? 1 : 0; break;
+                case Text.MORE: told = a > b ? 1 : 0; break;
+                default: told = a == b ? 1 : 0; break;
+            }
+            broken = told > FARTHEST || told < -FARTHEST;
+            return told;
+        }
+    }
+
+    /** What a law says of a carpet at a cell; no law (null) has no clause. */
+    static final class Judge {
+        private static final long NOT_TOLD = Long.MIN_VALUE;
+        private static final int MOST_COST = 99;
+        private static final int MOST_WEAR = 9;
+
+        private final Reckoner reckoner = new Reckoner();
+
+        int costOf(Text law, Floor floor, int carpet, int x, int y) {
+            reckoner.setLawWords(floor, carpet, x, y);
+            long told = lastThatHolds(law, Reader.COSTS);
+            return told == NOT_TOLD ? floor.side[carpet] : (int) Math.max(0, Math.min(MOST_COST, told));
+        }
+
+        int wearOf(Text law, Floor floor, int carpet) {
+            reckoner.setLawWords(floor, carpet, floor.x[carpet], floor.y[carpet]);
+            long told = lastThatHolds(law, Reader.WEARS);
+            return told == NOT_TOLD ? 1 : (int) Math.max(0, Math.min(MOST_WEAR, told));
+        }
+
+        boolean isBarred(Text law, Floor floor, int carpet, int x, int y) {
+            reckoner.setLawWords(floor, carpet, x, y);
+            return lastThatHolds(law, Reader.BARS) != NOT_TOLD;
+        }
+
+        private long lastThatHolds(Text law, int kind) {
+            for (int clause = law == null ? NONE : law.clauses - 1; clause >= 0; clause--) {
+                if (law.mark(clause, Text.KIND) != kind || !reckoner.isSo(law, clause)) {
+                    continue;
+                }
+                if (kind == Reader.BARS) {
+                    return 1;
+                }
+                long told = reckoner.sumOf(law, clause, 0);
+                if (!reckoner.broken) {
+                    return told;
+                }
+            }
+            return NOT_TOLD;
+        }
+    }
+
+    /** What can be undone, and how all was ahead of orders that may not stand. */
+    static final class Past {
+        /** Of each: what was done; PAID, the YEAR, then x, y and PILE of the carpets, as they were ahead of it. */
+        private static final int LONG = 3 + 3 * MOST_CARPETS;
+
+        private final int[] steps = new int[MOST_UNDOS * LONG];
+        private final int[] savedSteps = new int[MOST_UNDOS * LONG];
+        private final Floor savedFloor = new Floor();
+        private int savedSize = 0;
+        int size = 0;
+
+        void clear() {
+            size = 0;
+        }
+
+        void record(int kind, Floor floor) {
+            if (size >= MOST_UNDOS) {
+                System.arraycopy(steps, LONG, steps, 0, (MOST_UNDOS - 1) * LONG);
+                size = MOST_UNDOS - 1;
+            }
+            int base = size * LONG;
+            steps[base] = kind;
+            steps[base + 1] = floor.paid;
+            steps[base + 2] = floor.terms[YEAR];
+            System.arraycopy(floor.x, 0, steps, base + 3, MOST_CARPETS);
+            System.arraycopy(floor.y, 0, steps, base + 3 + MOST_CARPETS, MOST_CARPETS);
+            System.arraycopy(floor.pile, 0, steps, base + 3 + 2 * MOST_CARPETS, MOST_CARPETS);
+            size++;
+        }
+
+        /** What was undone, or what that is refused by. */
+        int takeBack(Floor floor) {
+            if (size <= 0) {
+                return CANT_BE;
+            }
+            size--;
+            int base = size * LONG;
+            floor.paid = steps[base + 1];
+            floor.terms[YEAR] = steps[base + 2];
+            System.arraycopy(steps, base + 3, floor.x, 0, MOST_CARPETS);
+            System.arraycopy(steps, base + 3 + MOST_CARPETS, floor.y, 0, MOST_CARPETS);
+            System.arraycopy(steps, base + 3 + 2 * MOST_CARPETS, floor.pile, 0, MOST_CARPETS);
+            return steps[base];
+        }
+
+        void save(Floor floor) {
+            savedFloor.copyFrom(floor);
+            System.arraycopy(steps, 0, savedSteps, 0, steps.length);
+            savedSize = size;
+        }
+
+        void restore(Floor floor) {
+            floor.copyFrom(savedFloor);
+            System.arraycopy(savedSteps, 0, steps, 0, steps.length);
+            size = savedSize;
+        }
+    }
+
+    /**
+     * Answers that were found for keys. Kept in the order in which they came: behind the keys that they were
+     * made of, so that the way back through them goes from each key to those that it leads to.
+     */
+    static final class Memo {
+        private static final int BITS = 14;
+        private static final int SLOTS = 1 << BITS;
+        private static final int MOST = SLOTS / 2;
+        private static final long EMPTY = -1L;
+
+        private final long[] keys = new long[SLOTS];
+        private final int[] values = new int[SLOTS];
+        /** How many ways lead to a key: for who goes back through them. */
+        final int[] flow = new int[SLOTS];
+        private final int[] order = new int[MOST];
+        int used = 0;
+        boolean full = false;
+
+        Memo() {
+            Arrays.fill(keys, EMPTY);
+        }
+
+        void clear() {
+            for (int i = 0; i < used; i++) {
+                keys[order[i]] = EMPTY;
+            }
+            used = 0;
+            full = false;
+        }
+
+        /** The slot that has the key, or the empty one where it would go. */
+        private int slotFor(long key) {
+            int slot = (int) (key * 0x9E3779B97F4A7C15L >>> 64 - BITS);
+            for (int i = 0; i < SLOTS && keys[slot] != EMPTY && keys[slot] != key; i++) {
+                slot = slot + 1 & SLOTS - 1;
+            }
+            return slot;
+        }
+
+        /** The slot of a key, or NONE. */
+        int find(long key) {
+            int slot = slotFor(key);
+            return keys[slot] == key ? slot : NONE;
+        }
+
+        void keep(long key, int value) {
+            if (used >= MOST) {
+                full = true;
+                return;
+            }
+            int slot = slotFor(key);
+            keys[slot] = key;
+            values[slot] = value;
+            flow[slot] = 0;
+            order[used] = slot;
+            used++;
+        }
+
+        int slotOfNth(int n) {
+            return n >= 0 && n < used ? order[n] : 0;
+        }
+
+        long keyIn(int slot) {
+            return slot >= 0 && slot < SLOTS ? keys[slot] : EMPTY;
+        }
+
+        int valueIn(int slot) {
+            return slot >= 0 && slot < SLOTS ? values[slot] : 0;
+        }
+    }
+
+    /**
+     * Fills on paper. A key tells how far one has come: the carpets used as bits from USED on, and for each column,
+     * in four bits, up to where it was filled. Each carpet comes to the first bare cell, so all below that height
+     * is covered, and two rows of carpets with one key can be gone on with in the same ways.
+     */
+    static final class Search {
+        private static final int USED = 4 * GRID;
+        private static final long ONE_IN_EACH_COLUMN = 0x111111111111L;
+
+        private final Memo memo = new Memo();
+        /** What a carpet costs at a cell (NONE: barred), and in which round that was asked. */
+        private final int[] price = new int[MOST_CARPETS * CELLS];
+        private final int[] asked = new int[MOST_CARPETS * CELLS];
+        /** In how many fills a carpet covers a cell. */
+        private final int[] tally = new int[MOST_CARPETS * CELLS];
+        private final int[] path = new int[MOST_CARPETS];
+        private int pathLength = 0;
+        private int round = 0;
+        private Judge judge;
+        private Floor floor;
+        private Text law;
+        private Stand sight;
+        private int bare;
+        private boolean cheap;
+        private int enough;
+
+        void prepare(Floor ofFloor, Text byLaw, Judge byJudge) {
+            floor = ofFloor;
+            law = byLaw;
+            judge = byJudge;
+            sight = null;
+            floor.drawRows();
+            bare = floor.bareCells();
+        }
+
+        /** Only fills that agree with what was seen count from here; false, if none can. */
+        boolean heed(Stand stand) {
+            sight = stand;
+            for (int i = 0; i < stand.seen; i++) {
+                if (stand.seenX[i] >= floor.wide || stand.seenY[i] >= floor.high) {
+                    return false;
+                }
+                int c = floor.carpetOn(stand.seenX[i], stand.seenY[i]);
+                if (c != NONE && floor.side[c] != stand.seenSide[i]) {
+                    return false;
+                }
+            }
+            return true;
+        }
+
+        /** How many fills there are, as rows; the search ends at as many as are enough. */
+        int number(int thatIsEnough) {
+            begin(false, thatIsEnough);
+            return areaReady() < bare ? 0 : solve(0L, bare, 0, 0);
+        }
+
+        int leastCost() {
+            begin(true, 1);
+            return areaReady() < bare ? NONE : solve(0L, bare, 0, 0);
+        }
+
+        /** Of the fill that number(1) found. */
+        int rowLength() {
+            return pathLength;
+        }
+
+        int rowCarpet(int i) {
+            return i >= 0 && i < pathLength && i < path.length ? path[i] : NONE;
+        }
+
+        boolean fillsAlone(int carpet) {
+            return floor.side[carpet] * floor.side[carpet] == bare && fits(0L, carpet, firstBare(0L, 0));
+        }
+
+        /** The cell to look at, or NONE. */
+        int bestLook() {
+            if (bare == 0 || number(Integer.MAX_VALUE) == 0) {
+                return NONE;
+            }
+            Arrays.fill(tally, 0);
+            if (memo.full) {
+                tallyRow(0L, bare, 0, 0);
+            } else {
+                tallyKeys();
+            }
+            int best = NONE;
+            for (int cell = 0; cell < CELLS; cell++) {
+                if (isBare(0L, cell) && (best == NONE || mostAt(cell) < mostAt(best))) {
+                    best = cell;
+                }
+            }
+            return best;
+        }
+
+        int mostAt(int cell) {
+            int most = 0;
+            for (int c = 0; c < floor.carpets && cell >= 0 && cell < CELLS; c++) {
+                most = Math.max(most, tally[c * CELLS + cell]);
+            }
+            return most;
+        }
+
+        private void begin(boolean forCost, int thatIsEnough) {
+            cheap = forCost;
+            enough = thatIsEnough;
+            memo.clear();
+            round++;
+            pathLength = 0;
+        }
+
+        private int areaReady() {
+            int area = 0;
+            for (int c = 0; c < floor.carpets; c++) {
+                area += floor.isReady(c) ? floor.side[c] * floor.side[c] : 0;
+            }
+            return area;
+        }
+
+        private int solve(long key, int left, int from, int depth) {
+            if (left == 0) {
+                pathLength = depth;
+                return cheap ? 0 : 1;
+            }
+            int known = memo.find(key);
+            if (known != NONE) {
+                return memo.valueIn(known);
+            }
+            int cell = firstBare(key, from);
+            int total = cheap ? NONE : 0;
+            for (int c = 0; c < floor.carpets && depth < MOST_CARPETS && (cheap || total < enough); c++) {
+                if (!fits(key, c, cell)) {
+                    continue;
+                }
+                path[depth] = c;
+                int rest = solve(keyWith(key, c, cell), left - floor.side[c] * floor.side[c], cell, depth + 1);
+                total = cheap ? cheaper(total, rest, priceAt(c, cell)) : total + rest;
+            }
+            memo.keep(key, total);
+            return total;
+        }
+
+        private static int cheaper(int total, int rest, int cost) {
+            if (rest == NONE) {
+                return total;
+            }
+            return total == NONE ? rest + cost : Math.min(total, rest + cost);
+        }
+
+        private boolean isBare(long key, int cell) {
+            int x = cell % GRID;
+            int y = cell / GRID;
+            return x < floor.wide && y < floor.high && (floor.rows[y] >> x & 1) == 0 && (key >>> 4 * x & 15) <= y;
+        }
+
+        private int firstBare(long key, int from) {
+            for (int cell = from; cell < CELLS; cell++) {
+                if (isBare(key, cell)) {
+                    return cell;
+                }
+            }
+            return NONE;
+        }
+
+        /** Whether a carpet can be laid at a cell behind all that the key tells. */
+        private boolean fits(long key, int c, int cell) {
+            if (cell < 0 || !floor.isReady(c) || (key >>> USED + c & 1) != 0) {
+                return false;
+            }
+            int side = floor.side[c];
+            int x = cell % GRID;
+            int y = cell / GRID;
+            if (x + side > floor.wide || y + side > floor.high) {
+                return false;
+            }
+            int square = (1 << side) - 1;
+            for (int i = 0; i < side; i++) {
+                if ((key >>> 4 * (x + i) & 15) > y || (floor.rows[y + i] >> x & square) != 0) {
+                    return false;
+                }
+            }
+            return agreesWithSeen(side, x, y) && priceAt(c, cell) != NONE;
+        }
+
+        private boolean agreesWithSeen(int side, int x, int y) {
+            for (int i = 0; sight != null && i < sight.seen; i++) {
+                int dx = sight.seenX[i] - x;
+                int dy = sight.seenY[i] - y;
+                if (dx >= 0 && dx < side && dy >= 0 && dy < side && sight.seenSide[i] != side) {
+                    return false;
+                }
+            }
+            return true;
+        }
+
+        private int priceAt(int c, int cell) {
+            if (law == null) {
+                return floor.side[c];
+            }
+            int place = c * CELLS + cell;
+            if (asked[place] != round) {
+                int x = cell % GRID;
+                int y = cell / GRID;
+                asked[place] = round;
+                price[place] = judge.isBarred(law, floor, c, x, y) ? NONE
+                        : cheap ? judge.costOf(law, floor, c, x, y) : 0;
+            }
+            return price[place];
+        }
+
+        private long keyWith(long key, int c, int cell) {
+            int x = cell % GRID;
+            long top = cell / GRID + floor.side[c];
+            long columns = (1L << 4 * floor.side[c]) - 1 << 4 * x;
+            return key & ~columns | top * ONE_IN_EACH_COLUMN << 4 * x & columns | 1L << USED + c;
+        }
+
+        /** Each key's fills counted once, times the ways that lead to it. */
+        private void tallyKeys() {
+            int root = memo.find(0L);
+            if (root == NONE) {
+                return;
+            }
+            memo.flow[root] = 1;
+            for (int n = memo.used - 1; n >= 0; n--) {
+                int slot = memo.slotOfNth(n);
+                if (memo.flow[slot] > 0 && memo.valueIn(slot) > 0) {
+                    tallyKey(memo.keyIn(slot), memo.flow[slot]);
+                }
+            }
+        }
+
+        private void tallyKey(long key, int flow) {
+            int cell = firstBare(key, 0);
+            for (int c = 0; c < floor.carpets; c++) {
+                if (!fits(key, c, cell)) {
+                    continue;
+                }
+                int next = memo.find(keyWith(key, c, cell));
+                if (next == NONE) {
+                    // Every key with a bare cell is kept here, so none is left: that is one fill.
+                    addToTally(c, cell, flow);
+                } else {
+                    memo.flow[next] += flow;
+                    addToTally(c, cell, flow * memo.valueIn(next));
+                }
+            }
+        }
+
+        /** The same row by row, for when there were too many keys to keep. */
+        private int tallyRow(long key, int left, int from, int depth) {
+            if (left == 0) {
+                return 1;
+            }
+            int cell = firstBare(key, from);
+            int total = 0;
+            for (int c = 0; c < floor.carpets && depth < MOST_CARPETS; c++) {
+                if (!fits(key, c, cell)) {
+                    continue;
+                }
+                int rest = tallyRow(keyWith(key, c, cell), left - floor.side[c] * floor.side[c], cell, depth + 1);
+                addToTally(c, cell, rest);
+                total += rest;
+            }
+            return total;
+        }
+
+        private void addToTally(int c, int cell, int fills) {
+            int side = floor.side[c];
+            for (int dy = 0; dy < side && fills > 0; dy++) {
+                for (int dx = 0; dx < side; dx++) {
+                    tally[c * CELLS + cell + dy * GRID + dx] += fills;
+                }
+            }
+        }
+    }
+
+    /** Chances as whole numbers, reckoned without loss: the digits of a chance stand in limbs of twelve. */
+    static final class Chance {
+        static final int MOST_K = 20;
+        static final int MOST_N = 99;
+        private static final int DIGITS = 12;
+        private static final long LIMB = 1000000000000L;
+        /** 108 digits behind the point hold n of them for every n, and one limb is ahead of it. */
+        private static final int LIMBS = 10;
+        private static final int ONES = LIMBS - 1;
+
+        private final long[] limbs = new long[MOST_K * LIMBS];
+
+        /** Of LIMB parts: that of n, each eaten by so many of ten, fewer than k are. */
+        long fewer(int k, int n, int ofTen) {
+            setStart(n);
+            for (int i = 0; i < n; i++) {
+                for (int eaten = k - 1; eaten >= 0; eaten--) {
+                    addOneMore(eaten, ofTen);
+                }
+            }
+            long sum = 0;
+            for (int eaten = 0; eaten < k; eaten++) {
+                // What stands in the limbs below is cut, of each part.
+                sum += limbs[eaten * LIMBS + ONES] * LIMB + limbs[eaten * LIMBS + ONES - 1];
+            }
+            return sum;
+        }
+
+        /** None is eaten of none, for sure; smaller by ten for each that comes, as each makes it ten times more. */
+        private void setStart(int n) {
+            Arrays.fill(limbs, 0L);
+            int digit = ONES * DIGITS - n;
+            long value = 1;
+            for (int i = 0; i < digit % DIGITS; i++) {
+                value *= 10;
+            }
+            if (digit >= 0) {
+                limbs[digit / DIGITS] = value;
+            }
+        }
+
+        private void addOneMore(int eaten, int ofTen) {
+            long carried = 0;
+            for (int i = 0; i < LIMBS; i++) {
+                int place = eaten * LIMBS + i;
+                long told = limbs[place] * (10 - ofTen) + carried;
+                if (eaten > 0) {
+                    told += limbs[place - LIMBS] * ofTen;
+                }
+                limbs[place] = told % LIMB;
+                carried = told / LIMB;
+            }
+        }
+    }
+}
