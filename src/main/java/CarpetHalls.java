@@ -196,7 +196,20 @@ public final class CarpetHalls {
         if (fault != NONE) {
             return answer(BAD_TEXT);
         }
-        return answer(runErrand());
+        past.save(now.floor);
+        clerk.words[Reader.DONE] = 0;
+        clerk.words[Reader.LATEST] = NONE;
+        for (int clause = 0; clause < errand.clauses; clause++) {
+            int times = errand.mark(clause, Text.TIMES);
+            for (int i = 0; i < times; i++) {
+                if (!runOnce(clause)) {
+                    past.restore(now.floor);
+                    stopped = clause;
+                    return answer(CANT_BE);
+                }
+            }
+        }
+        return answer(clerk.words[Reader.DONE]);
     }
 
     public int fault() {
@@ -280,7 +293,13 @@ public final class CarpetHalls {
         int found = 0;
         for (int wide = 1; wide <= GRID && area > 0; wide++) {
             int high = area / wide;
-            if (high > GRID || high * wide != area || !allFill(wide, high)) {
+            if (high > GRID || high * wide != area) {
+                continue;
+            }
+            sheet.copyFrom(now.floor);
+            sheet.emptyInto(wide, high);
+            search.prepare(sheet, now.forcedLaw(), judge);
+            if (search.number(1) == 0) {
                 continue;
             }
             if (found == i) {
@@ -317,7 +336,13 @@ public final class CarpetHalls {
     public int free() {
         int bits = 0;
         for (int c = 0; c < now.floor.carpets; c++) {
-            if (now.floor.isLaid(c) && setsFree(c)) {
+            if (!now.floor.isLaid(c)) {
+                continue;
+            }
+            sheet.copyFrom(now.floor);
+            sheet.rollUp(c);
+            search.prepare(sheet, now.forcedLaw(), judge);
+            if (search.number(2) == 1 && !search.fillsAlone(c)) {
                 bits |= 1 << c;
             }
         }
@@ -352,17 +377,15 @@ public final class CarpetHalls {
     }
 
     public int look(int what) {
-        if (what < 0 || what > 2) {
+        if (what < 0 || what > 2 || now.floor.bareCells() == 0) {
             return NONE;
         }
         search.prepare(now.floor, now.forcedLaw(), judge);
-        if (!search.heed(now)) {
+        if (!search.heed(now) || search.number(Integer.MAX_VALUE) == 0) {
             return NONE;
         }
+        search.tallyFills();
         int cell = search.bestLook();
-        if (cell == NONE) {
-            return NONE;
-        }
         return what == 0 ? cell % GRID : what == 1 ? cell / GRID : search.mostAt(cell);
     }
 
@@ -531,79 +554,33 @@ public final class CarpetHalls {
         return now.floor.wearAYear(judge, now.forcedLaw());
     }
 
-    private int runErrand() {
-        past.save(now.floor);
-        clerk.words[Reader.DONE] = 0;
-        clerk.words[Reader.LATEST] = NONE;
-        for (int clause = 0; clause < errand.clauses; clause++) {
-            int times = errand.mark(clause, Text.TIMES);
-            for (int i = 0; i < times; i++) {
-                if (!runOnce(clause)) {
-                    past.restore(now.floor);
-                    stopped = clause;
-                    return CANT_BE;
-                }
-            }
-        }
-        return clerk.words[Reader.DONE];
-    }
-
     /** Whether ORDERS can go on behind it; a clause whose "if" is not so can be passed over. */
     private boolean runOnce(int clause) {
         clerk.setOrderWords(now.floor);
         if (!clerk.isSo(errand, clause)) {
             return true;
         }
-        int told = doDeed(clause);
-        if (told < 0) {
+        if (!clerk.reckonSums(errand, clause)) {
             return false;
         }
-        if (errand.mark(clause, Text.KIND) == LAY) {
-            clerk.words[Reader.LATEST] = told;
+        int told;
+        switch (errand.mark(clause, Text.KIND)) {
+            case LAY:
+                told = doLay(clerk.sums[0], clerk.sums[1], clerk.sums[2]);
+                clerk.words[Reader.LATEST] = told;
+                break;
+            case ROLL:
+                told = doRoll(clerk.sums[0]);
+                break;
+            case MIRROR:
+                told = doMirror();
+                break;
+            default:
+                told = doPass();
+                break;
         }
         clerk.words[Reader.DONE]++;
-        return true;
-    }
-
-    private int doDeed(int clause) {
-        int kind = errand.mark(clause, Text.KIND);
-        if (kind == MIRROR) {
-            return doMirror();
-        }
-        if (kind == PASS) {
-            return doPass();
-        }
-        int carpet = (int) clerk.sumOf(errand, clause, 0);
-        if (clerk.broken) {
-            return CANT_BE;
-        }
-        if (kind == ROLL) {
-            return doRoll(carpet);
-        }
-        int x = (int) clerk.sumOf(errand, clause, 1);
-        if (clerk.broken) {
-            return CANT_BE;
-        }
-        int y = (int) clerk.sumOf(errand, clause, 2);
-        return clerk.broken ? CANT_BE : doLay(carpet, x, y);
-    }
-
-    private boolean allFill(int wide, int high) {
-        sheet.copyFrom(now.floor);
-        for (int c = 0; c < sheet.carpets; c++) {
-            sheet.rollUp(c);
-        }
-        sheet.wide = wide;
-        sheet.high = high;
-        search.prepare(sheet, now.forcedLaw(), judge);
-        return search.number(1) > 0;
-    }
-
-    private boolean setsFree(int carpet) {
-        sheet.copyFrom(now.floor);
-        sheet.rollUp(carpet);
-        search.prepare(sheet, now.forcedLaw(), judge);
-        return search.number(2) == 1 && !search.fillsAlone(carpet);
+        return told >= 0;
     }
 
     private static int nextDraw(int s) {
@@ -754,6 +731,14 @@ public final class CarpetHalls {
             }
         }
 
+        void emptyInto(int newWide, int newHigh) {
+            for (int c = 0; c < carpets; c++) {
+                rollUp(c);
+            }
+            wide = newWide;
+            high = newHigh;
+        }
+
         /** The hall mirrored; how many carpets are laid. */
         int turnOver() {
             int laid = 0;
@@ -799,11 +784,11 @@ public final class CarpetHalls {
         /** As y times GRID and x. */
         int firstBareCell() {
             drawRows();
-            int all = (1 << wide) - 1;
-            for (int r = 0; r < high && r < GRID; r++) {
-                int open = all & ~rows[r];
-                if (open != 0) {
-                    return r * GRID + Integer.numberOfTrailingZeros(open);
+            for (int cell = 0; cell < CELLS; cell++) {
+                int px = cell % GRID;
+                int py = cell / GRID;
+                if (px < wide && py < high && (rows[py] >> px & 1) == 0) {
+                    return cell;
                 }
             }
             return NONE;
@@ -963,9 +948,10 @@ public final class CarpetHalls {
         static final int KIND = 0;
         static final int TIMES = 1;
         static final int SUMS = 2;
-        static final int TEST = 6;
-        static final int TEST_END = 7;
-        static final int MARKS = 8;
+        static final int MOST_SUMS = 3;
+        static final int TEST = SUMS + MOST_SUMS + 1;
+        static final int TEST_END = TEST + 1;
+        static final int MARKS = TEST_END + 1;
 
         /** Codes up to WORD are numbers, up to ADD words. */
         static final int WORD = 2000;
@@ -1211,11 +1197,13 @@ public final class CarpetHalls {
         private void readSums(int kind) {
             int sums = ofOrders ? (kind == LAY ? 3 : kind == ROLL ? 1 : 0) : (kind == BARS ? 0 : 1);
             text.setMark(Text.SUMS, text.size);
-            for (int i = 0; i < sums; i++) {
-                if (i > 0) {
+            for (int i = 0; i < Text.MOST_SUMS; i++) {
+                if (i > 0 && i < sums) {
                     needWord(i == 1 ? "at" : "by");
                 }
-                readSum();
+                if (i < sums) {
+                    readSum();
+                }
                 text.setMark(Text.SUMS + 1 + i, text.size);
             }
         }
@@ -1286,7 +1274,9 @@ public final class CarpetHalls {
 
         private void closeBracket(char sign) {
             brackets--;
-            if (!takeSign(sign)) {
+            if (isSign(sign)) {
+                step();
+            } else {
                 fail();
             }
         }
@@ -1318,29 +1308,29 @@ public final class CarpetHalls {
                     readSum();
                 }
                 closeBracket(']');
-            } else if (parts >= MOST_PARTS) {
+                return;
+            }
+            if (parts >= MOST_PARTS) {
                 fail();
+                return;
+            }
+            parts++;
+            if (sort == DIGITS) {
+                text.add(needNumber(0, MOST_NUMBER));
             } else {
-                parts++;
-                readNumberOrWord();
+                text.add(Text.WORD + needWordOfPart());
             }
         }
 
-        private void readNumberOrWord() {
-            if (sort == DIGITS) {
-                text.add(needNumber(0, MOST_NUMBER));
-                return;
-            }
+        private int needWordOfPart() {
             int place = ofOrders ? orderWord() : lawWord();
             if (place == NONE) {
                 fail();
-                return;
+                return 0;
             }
             step();
-            if (ofOrders && (place == PILE_OF || place == LAID_OF)) {
-                place += needNumber(0, MOST_CARPETS - 1);
-            }
-            text.add(Text.WORD + place);
+            boolean ofCarpet = ofOrders && (place == PILE_OF || place == LAID_OF);
+            return ofCarpet ? place + needNumber(0, MOST_CARPETS - 1) : place;
         }
 
         private int lawWord() {
@@ -1362,6 +1352,8 @@ public final class CarpetHalls {
         /** Eight brackets with a sum, a term and a comparison open in each need far less. */
         private final long[] stack = new long[64];
         final int[] words = new int[Reader.ORDER_WORDS];
+        /** Of the clause whose sums were reckoned last. */
+        final int[] sums = new int[Text.MOST_SUMS];
         /** Whether the latest sum or test was BROKEN. */
         boolean broken = false;
 
@@ -1387,73 +1379,78 @@ public final class CarpetHalls {
             }
         }
 
+        /** Without an "if" it is so. */
         boolean isSo(Text text, int clause) {
             int from = text.mark(clause, Text.TEST);
             int to = text.mark(clause, Text.TEST_END);
-            broken = false;
             return from == to || reckon(text, from, to) != 0 && !broken;
         }
 
-        long sumOf(Text text, int clause, int which) {
-            return reckon(text, text.mark(clause, Text.SUMS + which), text.mark(clause, Text.SUMS + which + 1));
+        /** A clause's sums from the left; whether none is BROKEN. */
+        boolean reckonSums(Text text, int clause) {
+            for (int i = 0; i < Text.MOST_SUMS; i++) {
+                int from = text.mark(clause, Text.SUMS + i);
+                int to = text.mark(clause, Text.SUMS + i + 1);
+                sums[i] = from == to ? 0 : (int) reckon(text, from, to);
+                if (from != to && broken) {
+                    return false;
+                }
+            }
+            return true;
         }
 
+        /** Numbers and words pile up, all else makes one of those on top; none of them is beyond FARTHEST. */
         private long reckon(Text text, int from, int to) {
             int top = 0;
             broken = false;
             for (int i = from; i < to && i < text.size && !broken; i++) {
                 int code = text.code[i];
                 if (code < Text.ADD) {
-                    broken = top >= stack.length;
+                    int place = code - Text.WORD;
+                    broken = top + 1 >= stack.length || place >= words.length;
                     if (!broken) {
-                        stack[top] = code < Text.WORD ? code : wordAt(code - Text.WORD);
+                        stack[top] = place < 0 ? code : words[place];
                         top++;
                     }
-                } else if (top < 1) {
+                    continue;
+                }
+                if (top < 1 || top < 2 && code < Text.NOT) {
                     broken = true;
-                } else if (code == Text.NOT) {
-                    stack[top - 1] = 1 - stack[top - 1];
-                } else if (code == Text.AND || code == Text.OR) {
+                    continue;
+                }
+                if (code == Text.AND || code == Text.OR) {
                     i++;
                     if ((stack[top - 1] != 0) == (code == Text.OR)) {
                         i = i < text.size ? Math.max(i, text.code[i] - 1) : i;
                     } else {
                         top--;
                     }
-                } else if (top < 2) {
-                    broken = true;
-                } else {
-                    top--;
-                    stack[top - 1] = join(code, stack[top - 1], stack[top]);
+                    continue;
                 }
+                top -= code < Text.NOT ? 1 : 0;
+                long a = stack[top - 1];
+                long b = stack[top];
+                long made = 0;
+                switch (code) {
+                    case Text.ADD: made = a + b; break;
+                    case Text.SUBTRACT: made = a - b; break;
+                    case Text.MULTIPLY: made = a * b; break;
+                    case Text.DIVIDE: made = b == 0 ? FARTHEST + 1 : a / b; break;
+                    case Text.LEFT_OVER: made = b == 0 ? FARTHEST + 1 : a % b; break;
+                    case Text.LESS: made = a < b ? 1 : 0; break;
+                    case Text.MORE: made = a > b ? 1 : 0; break;
+                    case Text.SAME: made = a == b ? 1 : 0; break;
+                    default: made = 1 - a; break;
+                }
+                broken = made > FARTHEST || made < -FARTHEST;
+                stack[top - 1] = made;
             }
             return stack[0];
-        }
-
-        private int wordAt(int place) {
-            return place >= 0 && place < words.length ? words[place] : 0;
-        }
-
-        private long join(int code, long a, long b) {
-            long told = 0;
-            switch (code) {
-                case Text.ADD: told = a + b; break;
-                case Text.SUBTRACT: told = a - b; break;
-                case Text.MULTIPLY: told = a * b; break;
-                case Text.DIVIDE: told = b == 0 ? FARTHEST + 1 : a / b; break;
-                case Text.LEFT_OVER: told = b == 0 ? FARTHEST + 1 : a % b; break;
-                case Text.LESS: told = a < b ? 1 : 0; break;
-                case Text.MORE: told = a > b ? 1 : 0; break;
-                default: told = a == b ? 1 : 0; break;
-            }
-            broken = told > FARTHEST || told < -FARTHEST;
-            return told;
         }
     }
 
     /** What a law says of a carpet at a cell; no law (null) has no clause. */
     static final class Judge {
-        private static final long NOT_TOLD = Long.MIN_VALUE;
         private static final int MOST_COST = 99;
         private static final int MOST_WEAR = 9;
 
@@ -1461,35 +1458,28 @@ public final class CarpetHalls {
 
         int costOf(Text law, Floor floor, int carpet, int x, int y) {
             reckoner.setLawWords(floor, carpet, x, y);
-            long told = lastThatHolds(law, Reader.COSTS);
-            return told == NOT_TOLD ? floor.side[carpet] : (int) Math.max(0, Math.min(MOST_COST, told));
+            return holds(law, Reader.COSTS) ? Math.max(0, Math.min(MOST_COST, reckoner.sums[0])) : floor.side[carpet];
         }
 
         int wearOf(Text law, Floor floor, int carpet) {
             reckoner.setLawWords(floor, carpet, floor.x[carpet], floor.y[carpet]);
-            long told = lastThatHolds(law, Reader.WEARS);
-            return told == NOT_TOLD ? 1 : (int) Math.max(0, Math.min(MOST_WEAR, told));
+            return holds(law, Reader.WEARS) ? Math.max(0, Math.min(MOST_WEAR, reckoner.sums[0])) : 1;
         }
 
         boolean isBarred(Text law, Floor floor, int carpet, int x, int y) {
             reckoner.setLawWords(floor, carpet, x, y);
-            return lastThatHolds(law, Reader.BARS) != NOT_TOLD;
+            return holds(law, Reader.BARS);
         }
 
-        private long lastThatHolds(Text law, int kind) {
+        /** Whether a clause of that kind HOLDS; the reckoner has the last one's sum then. */
+        private boolean holds(Text law, int kind) {
             for (int clause = law == null ? NONE : law.clauses - 1; clause >= 0; clause--) {
-                if (law.mark(clause, Text.KIND) != kind || !reckoner.isSo(law, clause)) {
-                    continue;
-                }
-                if (kind == Reader.BARS) {
-                    return 1;
-                }
-                long told = reckoner.sumOf(law, clause, 0);
-                if (!reckoner.broken) {
-                    return told;
+                if (law.mark(clause, Text.KIND) == kind && reckoner.isSo(law, clause)
+                        && reckoner.reckonSums(law, clause)) {
+                    return true;
                 }
             }
-            return NOT_TOLD;
+            return false;
         }
     }
 
@@ -1556,16 +1546,17 @@ public final class CarpetHalls {
      * made of, so that the way back through them goes from each key to those that it leads to.
      */
     static final class Memo {
-        private static final int BITS = 14;
-        private static final int SLOTS = 1 << BITS;
-        private static final int MOST = SLOTS / 2;
+        private static final int FIRST_BITS = 10;
+        private static final int MOST_BITS = 14;
+        private static final int MORE_BITS = 2;
         private static final long EMPTY = -1L;
 
-        private final long[] keys = new long[SLOTS];
-        private final int[] values = new int[SLOTS];
+        private int bits = FIRST_BITS;
+        private long[] keys = new long[1 << FIRST_BITS];
+        private int[] values = new int[1 << FIRST_BITS];
         /** How many ways lead to a key: for who goes back through them. */
-        final int[] flow = new int[SLOTS];
-        private final int[] order = new int[MOST];
+        private int[] flows = new int[1 << FIRST_BITS];
+        private int[] order = new int[1 << FIRST_BITS - 1];
         int used = 0;
         boolean full = false;
 
@@ -1581,11 +1572,11 @@ public final class CarpetHalls {
             full = false;
         }
 
-        /** The slot that has the key, or the empty one where it would go. */
+        /** The slot that has the key, or the empty one where it would go: half of them are always empty. */
         private int slotFor(long key) {
-            int slot = (int) (key * 0x9E3779B97F4A7C15L >>> 64 - BITS);
-            for (int i = 0; i < SLOTS && keys[slot] != EMPTY && keys[slot] != key; i++) {
-                slot = slot + 1 & SLOTS - 1;
+            int slot = (int) (key * 0x9E3779B97F4A7C15L >>> 64 - bits);
+            for (int i = 0; i < keys.length && keys[slot] != EMPTY && keys[slot] != key; i++) {
+                slot = slot + 1 & keys.length - 1;
             }
             return slot;
         }
@@ -1597,28 +1588,61 @@ public final class CarpetHalls {
         }
 
         void keep(long key, int value) {
-            if (used >= MOST) {
+            if (used >= order.length && bits < MOST_BITS) {
+                grow();
+            }
+            if (used >= order.length) {
                 full = true;
                 return;
             }
-            int slot = slotFor(key);
-            keys[slot] = key;
-            values[slot] = value;
-            flow[slot] = 0;
-            order[used] = slot;
+            put(key, value, used);
             used++;
         }
 
+        private void put(long key, int value, int place) {
+            int slot = slotFor(key);
+            keys[slot] = key;
+            values[slot] = value;
+            flows[slot] = 0;
+            order[place] = slot;
+        }
+
+        /** Most searches are small, and rows that were made are never given back: so these start short. */
+        private void grow() {
+            long[] oldKeys = keys;
+            int[] oldValues = values;
+            int[] oldOrder = order;
+            bits += MORE_BITS;
+            keys = new long[1 << bits];
+            values = new int[1 << bits];
+            flows = new int[1 << bits];
+            order = new int[1 << bits - 1];
+            Arrays.fill(keys, EMPTY);
+            for (int i = 0; i < used; i++) {
+                put(oldKeys[oldOrder[i]], oldValues[oldOrder[i]], i);
+            }
+        }
+
         int slotOfNth(int n) {
-            return n >= 0 && n < used ? order[n] : 0;
+            return n >= 0 && n < used ? order[n] : NONE;
         }
 
         long keyIn(int slot) {
-            return slot >= 0 && slot < SLOTS ? keys[slot] : EMPTY;
+            return slot >= 0 && slot < keys.length ? keys[slot] : EMPTY;
         }
 
         int valueIn(int slot) {
-            return slot >= 0 && slot < SLOTS ? values[slot] : 0;
+            return slot >= 0 && slot < values.length ? values[slot] : 0;
+        }
+
+        int flowIn(int slot) {
+            return slot >= 0 && slot < flows.length ? flows[slot] : 0;
+        }
+
+        void addFlow(int slot, int more) {
+            if (slot >= 0 && slot < flows.length) {
+                flows[slot] += more;
+            }
         }
     }
 
@@ -1693,20 +1717,13 @@ public final class CarpetHalls {
         }
 
         boolean fillsAlone(int carpet) {
-            return floor.side[carpet] * floor.side[carpet] == bare && fits(0L, carpet, firstBare(0L, 0));
+            int cell = firstBare(0L, 0);
+            return floor.side[carpet] * floor.side[carpet] == bare && fits(0L, carpet, cell)
+                    && priceAt(carpet, cell) != NONE;
         }
 
-        /** The cell to look at, or NONE. */
+        /** The bare cell at which, by the tally, the most fills that agree are the fewest; the first such. */
         int bestLook() {
-            if (bare == 0 || number(Integer.MAX_VALUE) == 0) {
-                return NONE;
-            }
-            Arrays.fill(tally, 0);
-            if (memo.full) {
-                tallyRow(0L, bare, 0, 0);
-            } else {
-                tallyKeys();
-            }
             int best = NONE;
             for (int cell = 0; cell < CELLS; cell++) {
                 if (isBare(0L, cell) && (best == NONE || mostAt(cell) < mostAt(best))) {
@@ -1752,7 +1769,7 @@ public final class CarpetHalls {
             int cell = firstBare(key, from);
             int total = cheap ? NONE : 0;
             for (int c = 0; c < floor.carpets && depth < MOST_CARPETS && (cheap || total < enough); c++) {
-                if (!fits(key, c, cell)) {
+                if (!fits(key, c, cell) || priceAt(c, cell) == NONE) {
                     continue;
                 }
                 path[depth] = c;
@@ -1785,7 +1802,7 @@ public final class CarpetHalls {
             return NONE;
         }
 
-        /** Whether a carpet can be laid at a cell behind all that the key tells. */
+        /** Whether a carpet has its place at a cell behind all that the key tells; the law is not asked here. */
         private boolean fits(long key, int c, int cell) {
             if (cell < 0 || !floor.isReady(c) || (key >>> USED + c & 1) != 0) {
                 return false;
@@ -1802,7 +1819,7 @@ public final class CarpetHalls {
                     return false;
                 }
             }
-            return agreesWithSeen(side, x, y) && priceAt(c, cell) != NONE;
+            return agreesWithSeen(side, x, y);
         }
 
         private boolean agreesWithSeen(int side, int x, int y) {
@@ -1838,17 +1855,18 @@ public final class CarpetHalls {
             return key & ~columns | top * ONE_IN_EACH_COLUMN << 4 * x & columns | 1L << USED + c;
         }
 
-        /** Each key's fills counted once, times the ways that lead to it. */
-        private void tallyKeys() {
-            int root = memo.find(0L);
-            if (root == NONE) {
+        /** Behind number() of all: each key's fills, counted once, times the ways that lead to it. */
+        void tallyFills() {
+            Arrays.fill(tally, 0);
+            if (memo.full) {
+                tallyRow(0L, bare, 0, 0);
                 return;
             }
-            memo.flow[root] = 1;
+            memo.addFlow(memo.find(0L), 1);
             for (int n = memo.used - 1; n >= 0; n--) {
                 int slot = memo.slotOfNth(n);
-                if (memo.flow[slot] > 0 && memo.valueIn(slot) > 0) {
-                    tallyKey(memo.keyIn(slot), memo.flow[slot]);
+                if (memo.flowIn(slot) > 0 && memo.valueIn(slot) > 0) {
+                    tallyKey(memo.keyIn(slot), memo.flowIn(slot));
                 }
             }
         }
@@ -1856,7 +1874,7 @@ public final class CarpetHalls {
         private void tallyKey(long key, int flow) {
             int cell = firstBare(key, 0);
             for (int c = 0; c < floor.carpets; c++) {
-                if (!fits(key, c, cell)) {
+                if (!fits(key, c, cell) || priceAt(c, cell) == NONE) {
                     continue;
                 }
                 int next = memo.find(keyWith(key, c, cell));
@@ -1864,7 +1882,7 @@ public final class CarpetHalls {
                     // Every key with a bare cell is kept here, so none is left: that is one fill.
                     addToTally(c, cell, flow);
                 } else {
-                    memo.flow[next] += flow;
+                    memo.addFlow(next, flow);
                     addToTally(c, cell, flow * memo.valueIn(next));
                 }
             }
@@ -1878,7 +1896,7 @@ public final class CarpetHalls {
             int cell = firstBare(key, from);
             int total = 0;
             for (int c = 0; c < floor.carpets && depth < MOST_CARPETS; c++) {
-                if (!fits(key, c, cell)) {
+                if (!fits(key, c, cell) || priceAt(c, cell) == NONE) {
                     continue;
                 }
                 int rest = tallyRow(keyWith(key, c, cell), left - floor.side[c] * floor.side[c], cell, depth + 1);
