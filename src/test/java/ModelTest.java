@@ -854,7 +854,7 @@ public final class ModelTest {
                 case 9: if (r.nextInt(2) == 0) call("pass"); break;
                 case 10: for (int i = r.nextInt(4); i >= 0; i--) call("undo"); break;
                 case 11: if (r.nextInt(2) == 0) call("terms", number(0, 2), r.nextInt(6) == 0 ? number(990, 999) : number(0, 10)); break;
-                case 12: write(text(false)); call("law"); call("fault"); call("force", number(-1, 5)); break;
+                case 12: write(text(false)); call("law"); call("fault"); call("force", r.nextInt(4) == 0 ? number(-1, 5) : model.w.laws.size() - 1); break;
                 case 13: case 14: case 15: write(text(true)); call("orders"); call("fault"); call("stopped"); call("count", 6); break;
                 case 16: {
                     if (r.nextInt(2) == 0) break;
@@ -875,25 +875,64 @@ public final class ModelTest {
                     call("of", number(0, 8), number(0, 5)); call("at", number(0, 5), number(0, 5));
                     call("asks", number(0, 8), number(0, 11), number(0, 11), number(0, 2));
                     for (int i = 0; i < n; i++) for (int k = 0; k < 6; k++) call("of", i, k);
-                    call("force", pick(-1, model.w.laws.size()));
+                    if (r.nextBoolean()) call("force", pick(-1, model.w.laws.size()));
                 }
             }
             call("status");
         }
 
+        /** Carpets that fill the hall for sure: cut from it, then told in any order. */
+        void cutHall() {
+            int wide, high;
+            List<Integer> sides;
+            do {
+                wide = pick(1, 7);
+                high = pick(1, 7);
+                sides = new ArrayList<>();
+                boolean[][] cut = new boolean[high][wide];
+                for (int y = 0; y < high; y++) for (int x = 0; x < wide; x++) {
+                    if (cut[y][x]) continue;
+                    int most = 1;
+                    while (x + most < wide && !cut[y][x + most] && y + most < high) most++;
+                    int side = r.nextInt(3) == 0 ? pick(1, most) : most;
+                    for (int j = 0; j < side; j++) for (int i = 0; i < side; i++) cut[y + j][x + i] = true;
+                    sides.add(side);
+                }
+            } while (sides.size() > 9);
+            java.util.Collections.shuffle(sides, r);
+            if (sides.size() < 9 && r.nextBoolean()) sides.add(pick(1, 3));
+            call("hall", wide, high);
+            for (int side : sides) call("carpet", side, pick(0, 3), pick(1, 9));
+        }
+
+        void layTheFill() {
+            long length = call("fill", -1);
+            int most = r.nextBoolean() ? (int) length : r.nextInt(9);
+            for (int i = 0; i < most && i < length; i++) {
+                int c = (int) call("fill", 0);
+                if (c >= 0) call("lay", c, (int) call("bare", 1), (int) call("bare", 2));
+            }
+        }
+
         void go() {
-            call("hall", pick(1, 5), pick(1, 5));
-            int n = pick(0, 7);
-            for (int i = 0; i < n; i++) call("carpet", pick(1, pick(1, 3)), pick(0, 3), pick(0, 9));
-            for (int i = 0; i < 60 && calls < 480; i++) {
+            if (number % 2 == 0) {
+                call("hall", pick(1, 5), pick(1, 5));
+                int n = pick(0, 7);
+                for (int i = 0; i < n; i++) call("carpet", pick(1, pick(1, 3)), pick(0, 3), pick(0, 9));
+            } else {
+                cutHall();
+                if (r.nextBoolean()) call("image", 1);
+            }
+            for (int i = 0; i < 60 && calls < 470; i++) {
                 step();
+                if (r.nextInt(5) == 0) layTheFill();
                 if (r.nextInt(3) == 0) askAll();
             }
         }
     }
 
     public static void main(String[] args) {
-        int runs = args.length > 0 ? Integer.parseInt(args[0]) : 1500;
+        int runs = args.length > 0 ? Integer.parseInt(args[0]) : 600;
         int from = args.length > 1 ? Integer.parseInt(args[1]) : 0;
         for (int i = from; i < from + runs && wrong < 10; i++) new Run(i).go();
         System.out.println(wrong == 0 ? "all answers are as due" : wrong + " answers are not as due");
