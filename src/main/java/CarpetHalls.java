@@ -521,7 +521,7 @@ public final class CarpetHalls {
             return CANT_BE;
         }
         int cost = judge.costOf(now.forcedLaw(), floor, carpet, x, y);
-        past.record(LAY, floor);
+        past.note(LAY, floor);
         floor.x[carpet] = x;
         floor.y[carpet] = y;
         floor.paid = Math.min(MOST_PAID, floor.paid + cost);
@@ -536,13 +536,13 @@ public final class CarpetHalls {
         if (!floor.isLaid(carpet)) {
             return CANT_BE;
         }
-        past.record(ROLL, floor);
+        past.note(ROLL, floor);
         floor.rollUp(carpet);
         return floor.bareCells();
     }
 
     private int doMirror() {
-        past.record(MIRROR, now.floor);
+        past.note(MIRROR, now.floor);
         return now.floor.turnOver();
     }
 
@@ -550,7 +550,7 @@ public final class CarpetHalls {
         if (now.floor.terms[YEAR] >= LAST_YEAR) {
             return CANT_BE;
         }
-        past.record(PASS, now.floor);
+        past.note(PASS, now.floor);
         return now.floor.wearAYear(judge, now.forcedLaw());
     }
 
@@ -986,11 +986,19 @@ public final class CarpetHalls {
             clauses = other.clauses;
         }
 
+        /** NONE is no code. */
         void add(int one) {
-            if (size < code.length) {
+            if (one != NONE && size < code.length) {
                 code[size] = one;
                 size++;
             }
+        }
+
+        /** AND or OR with the place to go on at still to be set: where that stands. */
+        int addJump(int one) {
+            add(one);
+            add(0);
+            return size - 1;
         }
 
         void setCode(int place, int one) {
@@ -1043,17 +1051,33 @@ public final class CarpetHalls {
         private static final int MOST_NUMBER = 1000;
         private static final int MOST_TIMES = 20;
 
-        private static final int AT_END = 0;
-        private static final int LETTERS = 1;
-        private static final int DIGITS = 2;
-        private static final int SIGN = 3;
+        /** Tokens: a sign is its byte, the words stand here, a number is NUMBER and its value. */
+        private static final int AT_END = -1;
+        private static final int NO_WORD = 300;
+        private static final int FIRST_OF_LAW = 301;
+        private static final int FIRST_OF_ORDER = 304;
+        private static final int IF = 308;
+        private static final int TIMES = 309;
+        private static final int AT = 310;
+        private static final int BY = 311;
+        private static final int OR = 312;
+        private static final int AND = 313;
+        private static final int NOT = 314;
+        private static final int CARPET_WORD = 315;
+        private static final int PILE_WORD = 318;
+        private static final int YEAR_WORD = 321;
+        private static final int MOOD_WORD = 322;
+        private static final int DONE_WORD = 323;
+        private static final int PAID_WORD = 326;
+        private static final int LAID_WORD = 327;
+        private static final int NUMBER = 400;
 
+        private final int[] tokens = new int[LONGEST_TAPE + 1];
+        private final int[] places = new int[LONGEST_TAPE + 1];
         private Tape tape;
         private Text text;
         private boolean ofOrders;
-        private int sort;
-        private int start;
-        private int stop;
+        private int at;
         private int parts;
         private int brackets;
         private int fault;
@@ -1063,16 +1087,18 @@ public final class CarpetHalls {
             tape = from;
             text = into;
             ofOrders = asOrders;
-            stop = 0;
+            at = 0;
             parts = 0;
             brackets = 0;
             fault = NONE;
             text.clear();
-            step();
+            scan();
             for (int n = 0; n < MOST_CLAUSES && fault == NONE; n++) {
                 readClause();
-                if (!takeSign(';')) {
-                    needEnd();
+                if (!take(';')) {
+                    if (tokens[at] != AT_END) {
+                        fail();
+                    }
                     return fault;
                 }
             }
@@ -1080,126 +1106,151 @@ public final class CarpetHalls {
             return fault;
         }
 
-        private void step() {
-            int from = stop;
-            while (from < tape.length && tape.bytes[from] == ' ') {
-                from++;
+        // ---- tokens
+
+        private void scan() {
+            int found = 0;
+            int from = 0;
+            for (int n = 0; n < LONGEST_TAPE && from < tape.length; n++) {
+                int one = tape.bytes[from];
+                int to = from + 1;
+                if (one != ' ') {
+                    places[found] = from;
+                    if (isLetter(one)) {
+                        to = endOfLetters(to);
+                        tokens[found] = wordFrom(from, to);
+                    } else if (isDigit(one)) {
+                        to = endOfDigits(to);
+                        tokens[found] = NUMBER + valueFrom(from, to);
+                    } else {
+                        tokens[found] = one;
+                    }
+                    found++;
+                }
+                from = to;
             }
-            start = from;
-            sort = sortAt(from);
-            int to = from < tape.length ? from + 1 : from;
-            while (sort != SIGN && to < tape.length && sortAt(to) == sort) {
+            tokens[found] = AT_END;
+            places[found] = tape.length;
+        }
+
+        private static boolean isLetter(int one) {
+            return one >= 'a' && one <= 'z';
+        }
+
+        private static boolean isDigit(int one) {
+            return one >= '0' && one <= '9';
+        }
+
+        private int endOfLetters(int from) {
+            int to = from;
+            while (to < tape.length && isLetter(tape.bytes[to])) {
                 to++;
             }
-            stop = to;
+            return to;
         }
 
-        private int sortAt(int place) {
-            if (place < 0 || place >= tape.length) {
-                return AT_END;
+        private int endOfDigits(int from) {
+            int to = from;
+            while (to < tape.length && isDigit(tape.bytes[to])) {
+                to++;
             }
-            int one = tape.bytes[place];
-            return one >= 'a' && one <= 'z' ? LETTERS : one >= '0' && one <= '9' ? DIGITS : SIGN;
+            return to;
         }
 
-        /** The first fault stays; behind it no token is taken any more, so that reading ends. */
-        private void fail() {
-            if (fault == NONE) {
-                fault = start;
+        /** Any number that is too large counts as the smallest such. */
+        private int valueFrom(int from, int to) {
+            int value = 0;
+            for (int i = from; i < to; i++) {
+                value = Math.min(value * 10 + tape.bytes[i] - '0', MOST_NUMBER + 1);
             }
+            return value;
         }
 
-        private boolean isWord(String word) {
-            if (fault != NONE || sort != LETTERS || stop - start != word.length()) {
+        private int wordFrom(int from, int to) {
+            return is("costs", from, to) ? FIRST_OF_LAW : is("wears", from, to) ? FIRST_OF_LAW + 1
+                    : is("bars", from, to) ? FIRST_OF_LAW + 2 : is("lay", from, to) ? FIRST_OF_ORDER
+                    : is("roll", from, to) ? FIRST_OF_ORDER + 1 : is("mirror", from, to) ? FIRST_OF_ORDER + 2
+                    : is("pass", from, to) ? FIRST_OF_ORDER + 3 : is("if", from, to) ? IF
+                    : is("times", from, to) ? TIMES : is("at", from, to) ? AT : is("by", from, to) ? BY
+                    : is("or", from, to) ? OR : is("and", from, to) ? AND : is("not", from, to) ? NOT
+                    : is("carpet", from, to) ? CARPET_WORD : is("side", from, to) ? CARPET_WORD + 1
+                    : is("kind", from, to) ? CARPET_WORD + 2 : is("pile", from, to) ? PILE_WORD
+                    : is("x", from, to) ? PILE_WORD + 1 : is("y", from, to) ? PILE_WORD + 2
+                    : is("year", from, to) ? YEAR_WORD : is("mood", from, to) ? MOOD_WORD
+                    : is("done", from, to) ? DONE_WORD : is("latest", from, to) ? DONE_WORD + 1
+                    : is("bare", from, to) ? DONE_WORD + 2 : is("paid", from, to) ? PAID_WORD
+                    : is("laid", from, to) ? LAID_WORD : NO_WORD;
+        }
+
+        private boolean is(String word, int from, int to) {
+            if (to - from != word.length()) {
                 return false;
             }
-            for (int i = 0; i < word.length() && start + i < tape.length; i++) {
-                if (tape.bytes[start + i] != word.charAt(i)) {
+            for (int i = from; i < to; i++) {
+                if (tape.bytes[i] != word.charAt(i - from)) {
                     return false;
                 }
             }
             return true;
         }
 
-        private boolean takeWord(String word) {
-            boolean is = isWord(word);
-            if (is) {
-                step();
-            }
-            return is;
-        }
-
-        private boolean isSign(char sign) {
-            return fault == NONE && sort == SIGN && start < tape.length && tape.bytes[start] == sign;
-        }
-
-        private boolean takeSign(char sign) {
-            boolean is = isSign(sign);
-            if (is) {
-                step();
-            }
-            return is;
-        }
-
-        private void needWord(String word) {
-            if (!takeWord(word)) {
-                fail();
+        /** The first fault stays; behind it no token is taken any more, so that reading ends. */
+        private void fail() {
+            if (fault == NONE) {
+                fault = places[at];
             }
         }
 
-        private void needEnd() {
-            if (sort != AT_END) {
-                fail();
+        private boolean take(int token) {
+            if (fault != NONE || tokens[at] != token) {
+                return false;
             }
+            at++;
+            return true;
+        }
+
+        /** The token there, or none of any sort behind a fault. */
+        private int seenToken() {
+            return fault == NONE ? tokens[at] : AT_END;
         }
 
         private int needNumber(int least, int most) {
-            int value = 0;
-            for (int i = start; i < stop && i < tape.length && sort == DIGITS; i++) {
-                value = Math.min(value * 10 + tape.bytes[i] - '0', MOST_NUMBER + 1);
-            }
-            if (fault != NONE || sort != DIGITS || value < least || value > most) {
+            int value = tokens[at] - NUMBER;
+            if (fault != NONE || value < least || value > most) {
                 fail();
                 return least;
             }
-            step();
+            at++;
             return value;
         }
 
+        // ---- clauses
+
         private void readClause() {
-            int kind = ofOrders ? orderKind() : lawKind();
-            if (kind == NONE) {
+            int kind = tokens[at] - (ofOrders ? FIRST_OF_ORDER : FIRST_OF_LAW);
+            if (kind < 0 || kind > (ofOrders ? PASS : BARS)) {
                 fail();
                 return;
             }
-            step();
+            at++;
             text.openClause(kind);
-            readSums(kind);
-            if (ofOrders && takeWord("times")) {
+            readSums(ofOrders ? (kind == LAY ? 3 : kind == ROLL ? 1 : 0) : (kind == BARS ? 0 : 1));
+            if (ofOrders && take(TIMES)) {
                 text.setMark(Text.TIMES, needNumber(1, MOST_TIMES));
             }
             text.setMark(Text.TEST, text.size);
-            if (takeWord("if")) {
+            if (take(IF)) {
                 readTest();
             }
             text.setMark(Text.TEST_END, text.size);
         }
 
-        private int lawKind() {
-            return isWord("costs") ? COSTS : isWord("wears") ? WEARS : isWord("bars") ? BARS : NONE;
-        }
-
-        private int orderKind() {
-            return isWord("lay") ? LAY : isWord("roll") ? ROLL : isWord("mirror") ? MIRROR
-                    : isWord("pass") ? PASS : NONE;
-        }
-
-        private void readSums(int kind) {
-            int sums = ofOrders ? (kind == LAY ? 3 : kind == ROLL ? 1 : 0) : (kind == BARS ? 0 : 1);
+        /** Those that a clause has not end where they begin. */
+        private void readSums(int sums) {
             text.setMark(Text.SUMS, text.size);
             for (int i = 0; i < Text.MOST_SUMS; i++) {
-                if (i > 0 && i < sums) {
-                    needWord(i == 1 ? "at" : "by");
+                if (i > 0 && i < sums && !take(i == 1 ? AT : BY)) {
+                    fail();
                 }
                 if (i < sums) {
                     readSum();
@@ -1208,37 +1259,35 @@ public final class CarpetHalls {
             }
         }
 
+        // ---- tests and sums: the recursion is as deep as brackets are, which is 8 at most
+
+        /** An "or" can be gone past to where the next "or" stands, an "and" to what stands behind its one test. */
         private void readTest() {
-            readBoth();
-            for (int n = 0; n < LONGEST_TAPE && takeWord("or"); n++) {
-                int hole = addJump(Text.OR);
-                readBoth();
-                text.setCode(hole, text.size);
-            }
-        }
-
-        private void readBoth() {
             readPlain();
-            for (int n = 0; n < LONGEST_TAPE && takeWord("and"); n++) {
-                int hole = addJump(Text.AND);
-                readPlain();
-                text.setCode(hole, text.size);
+            int openOr = NONE;
+            for (int n = 0; n < LONGEST_TAPE && (seenToken() == OR || seenToken() == AND); n++) {
+                boolean isOr = take(OR);
+                if (isOr) {
+                    text.setCode(openOr, text.size);
+                    openOr = text.addJump(Text.OR);
+                    readPlain();
+                } else {
+                    at++;
+                    int openAnd = text.addJump(Text.AND);
+                    readPlain();
+                    text.setCode(openAnd, text.size);
+                }
             }
-        }
-
-        private int addJump(int code) {
-            text.add(code);
-            text.add(0);
-            return text.size - 1;
+            text.setCode(openOr, text.size);
         }
 
         private void readPlain() {
             boolean turned = false;
             // Two "not"s take each other away, also where the test is BROKEN: no level for each.
-            for (int n = 0; n < LONGEST_TAPE && takeWord("not"); n++) {
+            for (int n = 0; n < LONGEST_TAPE && take(NOT); n++) {
                 turned = !turned;
             }
-            if (isSign('(')) {
+            if (seenToken() == '(') {
                 openBracket();
                 if (fault == NONE) {
                     readTest();
@@ -1246,7 +1295,11 @@ public final class CarpetHalls {
                 closeBracket(')');
             } else {
                 readSum();
-                int code = takeComparison();
+                int code = take('<') ? Text.LESS : take('>') ? Text.MORE : take('=') ? Text.SAME : NONE;
+                if (code == NONE) {
+                    fail();
+                    return;
+                }
                 readSum();
                 text.add(code);
             }
@@ -1255,54 +1308,58 @@ public final class CarpetHalls {
             }
         }
 
-        private int takeComparison() {
-            int code = isSign('<') ? Text.LESS : isSign('>') ? Text.MORE : Text.SAME;
-            if (!takeSign('<') && !takeSign('>') && !takeSign('=')) {
-                fail();
-            }
-            return code;
-        }
-
         private void openBracket() {
             if (brackets >= MOST_BRACKETS) {
                 fail();
             } else {
                 brackets++;
-                step();
+                at++;
             }
         }
 
-        private void closeBracket(char sign) {
+        private void closeBracket(int sign) {
             brackets--;
-            if (isSign(sign)) {
-                step();
-            } else {
+            if (!take(sign)) {
                 fail();
             }
         }
 
+        /** A "+" or "-" is reckoned once the term behind it is whole: at the next of them, or at the end. */
         private void readSum() {
-            readTerm();
-            for (int n = 0; n < LONGEST_TAPE && (isSign('+') || isSign('-')); n++) {
-                int code = isSign('+') ? Text.ADD : Text.SUBTRACT;
-                step();
-                readTerm();
-                text.add(code);
+            readPart();
+            int openCode = NONE;
+            for (int n = 0; n < LONGEST_TAPE; n++) {
+                int code = codeOf(seenToken());
+                if (code == NONE) {
+                    break;
+                }
+                at++;
+                if (code == Text.ADD || code == Text.SUBTRACT) {
+                    text.add(openCode);
+                    openCode = code;
+                    readPart();
+                } else {
+                    readPart();
+                    text.add(code);
+                }
             }
+            text.add(openCode);
         }
 
-        private void readTerm() {
-            readPart();
-            for (int n = 0; n < LONGEST_TAPE && (isSign('*') || isSign('/') || isSign('%')); n++) {
-                int code = isSign('*') ? Text.MULTIPLY : isSign('/') ? Text.DIVIDE : Text.LEFT_OVER;
-                step();
-                readPart();
-                text.add(code);
+        private static int codeOf(int token) {
+            switch (token) {
+                case '+': return Text.ADD;
+                case '-': return Text.SUBTRACT;
+                case '*': return Text.MULTIPLY;
+                case '/': return Text.DIVIDE;
+                case '%': return Text.LEFT_OVER;
+                default: return NONE;
             }
         }
 
         private void readPart() {
-            if (isSign('[')) {
+            int token = seenToken();
+            if (token == '[') {
                 openBracket();
                 if (fault == NONE) {
                     readSum();
@@ -1315,33 +1372,31 @@ public final class CarpetHalls {
                 return;
             }
             parts++;
-            if (sort == DIGITS) {
+            if (token >= NUMBER) {
                 text.add(needNumber(0, MOST_NUMBER));
-            } else {
-                text.add(Text.WORD + needWordOfPart());
+                return;
             }
-        }
-
-        private int needWordOfPart() {
-            int place = ofOrders ? orderWord() : lawWord();
+            int place = ofOrders ? orderPlace(token) : lawPlace(token);
             if (place == NONE) {
                 fail();
-                return 0;
+                return;
             }
-            step();
-            boolean ofCarpet = ofOrders && (place == PILE_OF || place == LAID_OF);
-            return ofCarpet ? place + needNumber(0, MOST_CARPETS - 1) : place;
+            at++;
+            if (ofOrders && (place == PILE_OF || place == LAID_OF)) {
+                place += needNumber(0, MOST_CARPETS - 1);
+            }
+            text.add(Text.WORD + place);
         }
 
-        private int lawWord() {
-            return isWord("carpet") ? 0 : isWord("side") ? 1 : isWord("kind") ? 2 : isWord("pile") ? 3
-                    : isWord("x") ? 4 : isWord("y") ? 5 : isWord("year") ? 6 : isWord("mood") ? 7 : NONE;
+        private static int lawPlace(int token) {
+            return token >= CARPET_WORD && token <= MOOD_WORD ? token - CARPET_WORD : NONE;
         }
 
-        private int orderWord() {
-            return isWord("year") ? THIS_YEAR : isWord("done") ? DONE : isWord("latest") ? LATEST
-                    : isWord("bare") ? BARE : isWord("paid") ? PAID : isWord("pile") ? PILE_OF
-                    : isWord("laid") ? LAID_OF : NONE;
+        private static int orderPlace(int token) {
+            if (token >= DONE_WORD && token <= PAID_WORD) {
+                return DONE + token - DONE_WORD;
+            }
+            return token == YEAR_WORD ? THIS_YEAR : token == PILE_WORD ? PILE_OF : token == LAID_WORD ? LAID_OF : NONE;
         }
     }
 
@@ -1498,7 +1553,7 @@ public final class CarpetHalls {
             size = 0;
         }
 
-        void record(int kind, Floor floor) {
+        void note(int kind, Floor floor) {
             if (size >= MOST_UNDOS) {
                 System.arraycopy(steps, LONG, steps, 0, (MOST_UNDOS - 1) * LONG);
                 size = MOST_UNDOS - 1;
