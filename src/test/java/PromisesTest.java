@@ -357,6 +357,13 @@ public final class PromisesTest {
         due(14, "longest rows", lawFault("costsx 1"), 0);
         due(14, "longest rows", lawFault("costs 1x"), 7);
         due(14, "capitals", lawFault("Costs 1"), 0);
+        due(14, "a to z are letters", lawFault("barsz"), 0);
+        due(14, "a to z are letters", lawFault("abars"), 0);
+        due(14, "what stands ahead of a", lawFault("bars`"), 4);
+        due(14, "what stands behind z", lawFault("bars{"), 4);
+        due(14, "0 to 9 are digits", lawFault("costs 109 + 90"), NONE);
+        due(14, "400 tokens", lawFault(times(";", 400, "")), 0);
+        due(14, "398 tokens more", lawFault("bars" + times("+", 396, "")), 4);
         due(14, "a bar behind", lawFault("bars 1"), 5);
         due(14, "an empty clause", lawFault("bars;"), 5);
         due(14, "an empty clause", lawFault("bars;;bars"), 5);
@@ -386,6 +393,8 @@ public final class PromisesTest {
         due(14, "51 parts", lawFault("costs " + times("1", 51, "+")), 106);
         due(14, "51 parts in clauses", lawFault("costs " + times("1", 25, "+") + ";wears " + times("x", 26, "+")), 112);
         due(14, "50 parts with brackets", lawFault("costs " + times("[1]", 50, "+")), NONE);
+        due(14, "51st is the end", lawFault("costs " + times("1", 50, "+") + "+"), 106);
+        due(14, "51st is no part", lawFault("costs " + times("1", 50, "+") + "+;bars"), 106);
         due(14, "51st is a word", lawFault("costs " + times("1", 50, "+") + " if x = 1"), 109);
         due(14, "8 brackets", lawFault("costs " + times("[", 8, "") + "1" + times("]", 8, "")), NONE);
         due(14, "9 brackets", lawFault("costs " + times("[", 9, "") + "1" + times("]", 9, "")), 14);
@@ -399,6 +408,8 @@ public final class PromisesTest {
         due(14, "lay alone", ordersFault("lay"), 3);
         due(14, "no at", ordersFault("lay 0 by 0"), 6);
         due(14, "no by", ordersFault("lay 0 at 0"), 10);
+        due(14, "no at", ordersFault("lay 0 1 by 2"), 6);
+        due(14, "no by", ordersFault("lay 0 at 1 2"), 11);
         due(14, "mirror with a sum", ordersFault("mirror 1"), 7);
         due(14, "times 0", ordersFault("pass times 0"), 11);
         due(14, "times 20", ordersFault("pass times 20 if 1 = 2"), NONE);
@@ -652,6 +663,10 @@ public final class PromisesTest {
         h.lay(0, 0, 0);
         h.carpet(1, 0, 1);
         due(21, "behind a carpet", h.undo(), -3);
+        CarpetHalls empty = new CarpetHalls();
+        empty.mirror();
+        empty.carpet(1, 0, 1);
+        due(21, "behind the first carpet", empty.undo(), -3);
         h.mirror();
         h.terms(1, 1);
         due(21, "behind a term", h.undo(), -3);
@@ -876,6 +891,12 @@ public final class PromisesTest {
         due(36, "no floors", h.look(0), NONE);
         due(24, "ways don't heed it", h.ways(), 4);
         due(34, "forget", h.forget(), 6);
+        h.seen(3, 0, 1);
+        due(35, "just beyond the right wall", h.floors(), 0);
+        h.forget();
+        h.seen(0, 2, 1);
+        due(35, "just beyond the upper wall", h.floors(), 0);
+        h.forget();
         due(34, "forgotten", h.count(4), 0);
         due(34, "forget again", h.forget(), 0);
         due(35, "floors", h.floors(), 4);
@@ -907,6 +928,21 @@ public final class PromisesTest {
         due(36, "none is bare", h.look(2), NONE);
         h.seen(0, 0, 1);
         due(35, "none is bare, but it isn't so", h.floors(), 0);
+
+        h = hall(2, 3, 2, 1, 1);
+        h.seen(0, 2, 1);
+        due(35, "above", h.floors(), 2);
+        h.forget();
+        h.seen(0, 2, 2);
+        due(35, "above", h.floors(), 2);
+        h.forget();
+        h.force(law(h, "bars if side = 2 and y = 1"));
+        due(36, "x", h.look(0), 0);
+        due(36, "y", h.look(1), 2);
+        due(36, "left", h.look(2), 1);
+        h.force(law(h, "bars if side = 2 and y = 1 or carpet = 1 and x = 0"));
+        due(36, "the first of many", h.look(1), 0);
+        due(36, "left", h.look(2), 1);
 
         h = hall(3, 3, 1, 1, 1, 1, 1, 1, 1, 1, 1);
         h.lay(0, 0, 0);
@@ -1060,6 +1096,36 @@ public final class PromisesTest {
         due(42, "images stay", h.back(0), 0);
         due(42, "seen", h.count(4), 1);
         due(42, "carpets", h.of(2, 0), NONE);
+
+        // What was seen and what a law says are kept as they are, not their number alone.
+        h = hall(2, 3, 2, 1, 1);
+        h.seen(0, 2, 1);
+        h.force(law(h, "bars if x = 1;costs 9;wears 4 if y = 1"));
+        h.image(1);
+        h.forget();
+        h.seen(1, 0, 2);
+        h.seen(1, 1, 1);
+        h.image(0);
+        h.back(1);
+        h.force(NONE);
+        due(42, "floors", h.floors(), 2);
+        h.force(0);
+        due(42, "barred", h.asks(0, 1, 1, 1), 1);
+        due(42, "costs", h.asks(0, 1, 1, 0), 9);
+        h.back(0);
+        h.force(NONE);
+        due(42, "floors", h.floors(), 0);
+        h.hall(2, 2);
+        CarpetHalls late = hall(2, 2, 1);
+        late.image(0);
+        late.force(law(late, "costs 7;bars if y = 0"));
+        late.image(1);
+        late.back(0);
+        law(late, "bars if y = 1;wears 3;costs 8");
+        late.back(1);
+        due(42, "a law that another one stood for", late.asks(0, 0, 0, 0), 7);
+        due(42, "a law that another one stood for", late.asks(0, 0, 0, 1), 1);
+        due(42, "a law that another one stood for", late.asks(0, 0, 1, 1), 0);
     }
 
     private static void countsAndStatus() {
