@@ -33,6 +33,9 @@ public final class CarpetHalls {
     private static final int MOST_MOTHS = 10;
     private static final int MOST_MOOD = 9;
 
+    /** More rows of carpets than there can be: nine carpets make fewer than a million. */
+    private static final int ALL_ROWS = 1000000000;
+
     /** The four deeds, by the numbers that undo() tells them with. */
     private static final int LAY = 0;
     private static final int ROLL = 1;
@@ -277,7 +280,7 @@ public final class CarpetHalls {
 
     public int ways() {
         search.prepare(now.floor, now.forcedLaw(), judge);
-        return search.number(Integer.MAX_VALUE);
+        return search.number(ALL_ROWS);
     }
 
     public int cheapest() {
@@ -373,7 +376,7 @@ public final class CarpetHalls {
 
     public int floors() {
         search.prepare(now.floor, now.forcedLaw(), judge);
-        return search.heed(now) ? search.number(Integer.MAX_VALUE) : 0;
+        return search.heed(now) ? search.number(ALL_ROWS) : 0;
     }
 
     public int look(int what) {
@@ -381,7 +384,7 @@ public final class CarpetHalls {
             return NONE;
         }
         search.prepare(now.floor, now.forcedLaw(), judge);
-        if (!search.heed(now) || search.number(Integer.MAX_VALUE) == 0) {
+        if (!search.heed(now) || search.number(ALL_ROWS) == 0) {
             return NONE;
         }
         search.tallyFills();

@@ -349,6 +349,52 @@ public final class BoundariesTest {
         due("years: -1 ahead of -3", new CarpetHalls().years(0, 0), -1);
     }
 
+    private static void refusedCallsChangeNothing() {
+        sentence("REFUSED by: -1 a number that can't be; -2 there is no such CARPET, LAW, IMAGE; -3 it can't be by what stands; -5 no room; -6 a TEXT, a ROW that can't be.");
+        CarpetHalls h = hall(3, 3, 1, 2, 1, 1, 1, 1, 1, 1);
+        h.carpet(1, 0, 0);
+        for (int i = 0; i < 6; i++) {
+            law(h, "costs 9 if x = " + i);
+            h.seen(0, 0, 2);
+        }
+        h.force(1);
+        h.terms(0, 999);
+        h.lay(1, 0, 0);
+        h.mirror();
+        String was = state(h);
+        due("-1 of carpet", h.carpet(1, 4, 1), -1);
+        due("-5 of carpet", h.carpet(1, 0, 1), -5);
+        due("-1 of hall", h.hall(13, 1), -1);
+        due("-3 of hall", h.hall(3, 3), -3);
+        due("-1 of terms", h.terms(0, 1000), -1);
+        due("-6 of row", h.row(), -6);
+        due("-5 of law", h.law(), -5);
+        due("-3 of orders", orders(h, "roll 1;roll 1"), -3);
+        due("-6 of orders", orders(h, "roll 1;roll"), -6);
+        due("-2 of force", h.force(6), -2);
+        due("-1 of lay", h.lay(0, 0, 12), -1);
+        due("-2 of lay", h.lay(9, 0, 0), -2);
+        due("-3 of lay", h.lay(0, 1, 1), -3);
+        due("-2 of roll", h.roll(9), -2);
+        due("-3 of roll", h.roll(0), -3);
+        due("-3 of pass", h.pass(), -3);
+        due("-1 of seen", h.seen(0, 0, 13), -1);
+        due("-5 of seen", h.seen(0, 0, 1), -5);
+        due("-1 of years", h.years(0, 61), -1);
+        due("-1 of image", h.image(2), -1);
+        due("-1 of back", h.back(2), -1);
+        due("-2 of back", h.back(1), -2);
+        same("all these refusals", state(h), was);
+        int[] want = {8, 4, 5, 3, 2};
+        for (int i = 0; i < want.length; i++) {
+            due("count(" + (8 + i) + ")", h.count(8 + i), want[i]);
+        }
+        due("the latest deed", h.undo(), 2);
+        due("-6 of law", new CarpetHalls().law(), -6);
+        due("-3 of undo", new CarpetHalls().undo(), -3);
+        due("-3 of years", new CarpetHalls().years(0, 1), -3);
+    }
+
     // ---------------------------------------------------------------- Terms II
 
     private static void tapeOf400() {
@@ -358,7 +404,8 @@ public final class BoundariesTest {
         due("a fault at the end of 400", lawFault("costs" + times(" ", 395, "")), 400);
         due("400 letters", lawFault(times("x", 400, "")), 0);
         due("400 digits", lawFault("costs " + times("0", 394, "")), NONE);
-        due("400 single bytes", lawFault("bars" + times("!", 396, "")), 4);
+        due("400 single bytes", lawFault(times(";", 400, "")), 0);
+        due("400 single bytes behind a word", lawFault("bars" + times("!", 396, "")), 4);
         due("orders of 400 bytes", ordersFault(times(" ", 394, "") + "mirror"), NONE);
     }
 
@@ -378,7 +425,8 @@ public final class BoundariesTest {
         due("behind z", lawFault("bars{"), 4);
         due("ahead of 0", lawFault("costs 1/"), 8);
         due("behind 9", lawFault("costs 1:"), 7);
-        due("a and z are letters", lawFault("bars if az = 1"), 8);
+        due("a is a letter", lawFault("barsa"), 0);
+        due("z is a letter", lawFault("barsz"), 0);
         due("0 and 9 are digits", lawFault("costs 90"), NONE);
         due("byte 0", lawFault("bars\0"), 4);
         due("byte 255", lawFault("bars\u00ff"), 4);
@@ -430,6 +478,10 @@ public final class BoundariesTest {
         due("a sum alone", lawFault("bars if (1)"), 10);
         due("nothing in brackets", lawFault("bars if ()"), 9);
         due("three sums", lawFault("bars if 1 < 2 < 3"), 14);
+        due("two sums, nothing between", lawFault("bars if 1 2"), 10);
+        due("not less", so("not 1 < 2"), 0);
+        due("not more", so("not 2 > 1"), 0);
+        due("not less, as it is", so("not 2 < 1"), 1);
     }
 
     private static void sumsAndTerms() {
@@ -558,6 +610,8 @@ public final class BoundariesTest {
         due("and, it is so", so("not (1=1 and 1/0=1)"), 0);
         due("and, what stands ahead is asked", so("not (1/0=1 and 1=2)"), 0);
         due("or behind or", so("1=2 or 1=1 or 1/0=1"), 1);
+        due("or behind or, the first is so", so("1=1 or 1/0=1 or 1/0=1"), 1);
+        due("not of or behind or", so("not (1=1 or 1/0=1 or 1/0=1 or 1/0=1)"), 0);
         due("and behind and", so("not (1=1 and 1=2 and 1/0=1)"), 1);
         due("and behind or", so("1=1 or 1/0=1 and 1/0=1"), 1);
         due("or behind and", so("1=2 and 1/0=1 or 1=1"), 1);
@@ -911,6 +965,14 @@ public final class BoundariesTest {
         due("one alone", one.fill(NONE), 1);
         CarpetHalls cell = hall(1, 1, 2, 1);
         due("the larger one does not fit", cell.fill(0), 1);
+        // The one that is LAID stands above the first cell: no larger one can have its lowest left cell there.
+        CarpetHalls above = hall(3, 3, 1, 2, 1, 1, 1, 1);
+        above.lay(0, 0, 1);
+        due("one that is laid above the first bare cell", above.ways(), 48);
+        due("the larger one comes behind it", above.fill(0), 2);
+        due("the larger one", above.fill(1), 1);
+        // The large one beside (0, 2) is higher by one: the middle one would reach into it.
+        due("one on paper beside the first bare cell", hall(4, 4, 1, 3, 1, 2, 1).ways(), 0);
     }
 
     private static void waysAndCheapest() {
@@ -941,6 +1003,17 @@ public final class BoundariesTest {
         h.lay(0, 0, 0);
         due("whatever is laid", h.halls(NONE), 2);
         due("it is laid still", h.at(0, 0), 0);
+        CarpetHalls corner = hall(3, 3, 1, 1);
+        corner.lay(0, 2, 2);
+        rule(corner, "bars if carpet = 1 and x + y = 0");
+        due("the one that is laid comes first there", corner.halls(NONE), 2);
+        CarpetHalls kinds = hall(3, 3);
+        kinds.carpet(1, 2, 5);
+        kinds.carpet(1, 3, 5);
+        rule(kinds, "bars if kind = 3 and x + y = 0");
+        due("their kinds are asked", kinds.halls(NONE), 2);
+        rule(kinds, "bars if kind = 3");
+        due("their kinds are asked", kinds.halls(NONE), 0);
         h.carpet(4, 0, 1);
         due("16 in a row are too many", h.halls(NONE), 1);
         due("8 by 8", h.halls(0), 808);
@@ -1011,6 +1084,11 @@ public final class BoundariesTest {
         due("nine have four points", nine.crosses(), 4);
         nine.roll(4);
         due("none without the middle", nine.crosses(), 0);
+        CarpetHalls turned = hall(2, 2, 1, 1, 1, 1);
+        for (int c = 0; c < 4; c++) {
+            turned.lay(3 - c, c % 2, c / 2);
+        }
+        due("in any order", turned.crosses(), 1);
         CarpetHalls twos = hall(12, 12, 6, 6, 6, 6);
         for (int c = 0; c < 4; c++) {
             twos.lay(c, c % 2 * 6, c / 2 * 6);
@@ -1113,6 +1191,13 @@ public final class BoundariesTest {
         nine.lay(8, 7, 0);
         rule(nine, "bars if carpet = 8 and x = 8;bars if carpet = 7 and x = 7;bars if carpet < 7");
         due("the ninth, with one row of two", nine.free(), 256);
+        CarpetHalls kinds = hall(2, 1);
+        kinds.carpet(1, 1, 5);
+        kinds.carpet(1, 2, 5);
+        kinds.lay(0, 0, 0);
+        due("two rows", kinds.free(), 0);
+        rule(kinds, "bars if kind = x + 1");
+        due("the other row alone", kinds.free(), 1);
     }
 
     private static void floorsBySeen() {
@@ -1140,6 +1225,16 @@ public final class BoundariesTest {
         due("one that is laid, so", h.floors(), 2);
         h.seen(1, 1, 1);
         due("one that is laid, not so", h.floors(), 0);
+        CarpetHalls high = hall(2, 3, 2, 1, 1);
+        high.seen(0, 2, 1);
+        due("above a larger one", high.floors(), 2);
+        high.forget();
+        high.seen(1, 2, 2);
+        due("the highest right of a larger one", high.floors(), 2);
+        high.seen(0, 0, 1);
+        due("below a larger one", high.floors(), 2);
+        high.seen(1, 1, 1);
+        due("within a larger one", high.floors(), 0);
         CarpetHalls large = hall(12, 12, 12);
         large.seen(11, 11, 12);
         due("the largest hall's last cell", large.floors(), 1);
@@ -1163,6 +1258,15 @@ public final class BoundariesTest {
         CarpetHalls cols = hall(3, 1, 1, 1, 1);
         rule(cols, "bars if x = 0 and carpet > 0");
         due("not the first: x", cols.look(0), 1);
+        CarpetHalls three = hall(2, 3, 1, 1, 2, 2, 2);
+        three.seen(0, 0, 1);
+        due("three of six each below, two of six each above: y", three.look(1), 1);
+        due("left", three.look(2), 2);
+        CarpetHalls right = hall(4, 2, 1, 1, 1, 2, 1);
+        right.seen(3, 1, 1);
+        due("not the cell that was seen, but the first as good: x", right.look(0), 3);
+        due("y", right.look(1), 0);
+        due("left", right.look(2), 12);
         CarpetHalls last = hall(12, 12, 12);
         due("one alone", last.look(2), 1);
     }
@@ -1304,6 +1408,11 @@ public final class BoundariesTest {
             due("barred", barred.years(seed, 1), 9);
         }
         due("every last draw was met", met[0] && met[1] && met[2] ? 1 : 0, 1);
+        CarpetHalls kinds = hall(3, 3);
+        kinds.carpet(1, 2, 5);
+        rule(kinds, "bars if kind = 0;wears 9 if kind = 2");
+        due("its kind is asked", kinds.years(0, 60), 9);
+        due("it was laid, and wore by its kind", kinds.drawn(0, 0), 0);
     }
 
     private static void rowsAndFluff() {
@@ -1396,6 +1505,47 @@ public final class BoundariesTest {
         h.back(1);
         due("an image kept anew", h.back(0), 0);
         due("is as it was then", h.count(1), 0);
+        // Not how many there are alone, but what they say.
+        CarpetHalls two = hall(2, 3);
+        two.image(0);
+        two.carpet(2, 0, 5);
+        two.carpet(1, 1, 6);
+        two.carpet(1, 1, 6);
+        two.seen(0, 2, 1);
+        rule(two, "costs 7 if x = 1;bars if y = 1 and side = 2");
+        two.image(1);
+        due("floors", two.floors(), 2);
+        two.back(0);
+        two.carpet(1, 3, 1);
+        two.carpet(3, 2, 2);
+        two.carpet(3, 2, 2);
+        two.seen(1, 0, 3);
+        rule(two, "wears 8;costs 3 if y = 1;bars");
+        two.image(0);
+        two.back(1);
+        due("side", two.of(0, 0), 2);
+        due("kind", two.of(1, 1), 1);
+        due("pile", two.of(1, 2), 6);
+        due("floors", two.floors(), 2);
+        due("costs", two.asks(0, 1, 1, 0), 7);
+        due("costs", two.asks(0, 0, 1, 0), 2);
+        due("barred", two.asks(0, 0, 1, 1), 1);
+        due("barred", two.asks(0, 0, 2, 1), 0);
+        two.back(0);
+        due("kind", two.of(0, 1), 3);
+        due("costs", two.asks(1, 1, 1, 0), 3);
+        due("barred", two.asks(1, 0, 0, 1), 1);
+        CarpetHalls wide = hall(3, 2, 2, 1, 1);
+        rule(wide, "bars if side = 2 and x = 1");
+        wide.seen(2, 0, 1);
+        wide.image(0);
+        wide.forget();
+        wide.seen(0, 0, 1);
+        wide.image(1);
+        wide.back(0);
+        due("what was seen on the right", wide.floors(), 2);
+        wide.back(1);
+        due("what was seen on the left", wide.floors(), 0);
     }
 
     private static void noneIsMinusOne() {
@@ -1795,6 +1945,7 @@ public final class BoundariesTest {
         h.carpet(1, 0, 1);
         h.carpet(1, 0, 9);
         rule(h, "wears 20;costs 50");
+        h.terms(0, 700);
         String[] ahead = new String[6];
         for (int i = 0; i < 6; i++) {
             ahead[i] = state(h);
@@ -1816,8 +1967,32 @@ public final class BoundariesTest {
         }
     }
 
+    private static void sixteenAreKept() {
+        promise(21, "16 are kept");
+        CarpetHalls h = hall(12, 12, 1);
+        String[] ahead = new String[40];
+        for (int i = 0; i < 40; i++) {
+            ahead[i] = h.of(0, 3) + " " + h.of(0, 4) + " " + h.count(3);
+            if (i % 2 == 0) {
+                h.lay(0, i % 12, i % 11);
+            } else {
+                h.roll(0);
+            }
+            due("how many can be undone", h.count(6), Math.min(16, i + 1));
+        }
+        for (int i = 39; i >= 24; i--) {
+            due("the deed " + i, h.undo(), i % 2);
+            same("undo of the deed " + i, h.of(0, 3) + " " + h.of(0, 4) + " " + h.count(3), ahead[i]);
+        }
+        due("the seventeenth", h.undo(), -3);
+    }
+
     private static void whatHindersUndo() {
         promise(21, "(nothing that was ahead of a carpet(), hall(), terms(), row() that was not REFUSED can be undone)");
+        CarpetHalls first = new CarpetHalls();
+        first.mirror();
+        first.carpet(1, 0, 1);
+        due("the first carpet", first.undo(), -3);
         CarpetHalls h = hall(2, 2, 1);
         h.mirror();
         h.carpet(0, 0, 0);
@@ -2321,6 +2496,7 @@ public final class BoundariesTest {
         seenNumbers();
         termsNumbers();
         refusalsHaveAnOrder();
+        refusedCallsChangeNothing();
         tapeOf400();
         tokens();
         twelveClauses();
@@ -2405,6 +2581,7 @@ public final class BoundariesTest {
         promise20();
         promise21();
         undoBringsAllBack();
+        sixteenAreKept();
         whatHindersUndo();
         promise22();
         promise23();

@@ -932,7 +932,7 @@ public final class ModelTest {
     }
 
     public static void main(String[] args) {
-        int runs = args.length > 0 ? Integer.parseInt(args[0]) : 600;
+        int runs = args.length > 0 ? Integer.parseInt(args[0]) : 200;
         int from = args.length > 1 ? Integer.parseInt(args[1]) : 0;
         for (int i = from; i < from + runs && wrong < 10; i++) new Run(i).go();
         System.out.println(wrong == 0 ? "all answers are as due" : wrong + " answers are not as due");

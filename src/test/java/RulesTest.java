@@ -82,6 +82,14 @@ public final class RulesTest {
         while (imports.find()) {
             check(imports.group(1).equals("java.util.Arrays"), "rule 4: " + imports.group(1));
         }
+        Matcher library = Pattern.compile("\\b(Integer|Long|Math|Arrays|System|String|Character|Boolean|Object)\\.(\\w+)").matcher(bare);
+        TreeSet<String> allowed = new TreeSet<>(java.util.Arrays.asList("Math.min", "Math.max", "Integer.bitCount",
+                "System.arraycopy", "Arrays.fill"));
+        while (library.find()) {
+            check(allowed.contains(library.group(1) + "." + library.group(2)), "rule 4: " + library.group());
+        }
+        check(!Pattern.compile("\\[\\]\\[\\]\\[\\]").matcher(bare).find(), "rule 3: an array of three dimensions");
+        check(!Pattern.compile("while \\(true\\)|for \\(;;").matcher(bare).find(), "rule 9: a loop without an end");
         // A method opens at one of two depths; it must close within some sixty lines.
         String[] lines = source.split("\n");
         for (int i = 0; i < lines.length; i++) {
