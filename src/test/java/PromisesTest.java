@@ -954,6 +954,18 @@ public final class PromisesTest {
         h = hall(12, 3, 1, 3, 1, 3, 1, 2, 1, 1, 3);
         due(36, "many keys", h.look(2), 5760);
         due(36, "many keys", h.look(0), 0);
+        // The same with a law, where a large carpet may come last; the numbers are those of a plain list of all rows.
+        h = hall(12, 4, 1, 1, 1, 1, 2, 2, 2, 4, 4);
+        h.force(law(h, "costs 5"));
+        due(35, "many keys by a law", h.floors(), 12096);
+        due(36, "many keys by a law", h.look(0), 0);
+        due(36, "many keys by a law", h.look(2), 3168);
+        due(25, "many keys by a law", h.cheapest(), 45);
+        h.force(law(h, "bars if carpet = 0 and x = 0"));
+        due(35, "many keys, barred", h.floors(), 10512);
+        due(36, "many keys, barred", h.look(0), 10);
+        due(36, "many keys, barred", h.look(1), 0);
+        due(36, "many keys, barred", h.look(2), 2592);
     }
 
     private static void chances() {
