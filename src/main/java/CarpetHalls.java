@@ -1217,11 +1217,11 @@ public final class CarpetHalls {
             return fault == NONE ? tokens[at] : AT_END;
         }
 
-        private int needNumber(int least, int most) {
+        /** The number there, or NONE, if it is none from least to most: then nothing is taken. */
+        private int takeNumber(int least, int most) {
             int value = tokens[at] - NUMBER;
             if (fault != NONE || value < least || value > most) {
-                fail();
-                return least;
+                return NONE;
             }
             at++;
             return value;
@@ -1239,7 +1239,11 @@ public final class CarpetHalls {
             text.openClause(kind);
             readSums(ofOrders ? (kind == LAY ? 3 : kind == ROLL ? 1 : 0) : (kind == BARS ? 0 : 1));
             if (ofOrders && take(TIMES)) {
-                text.setMark(Text.TIMES, needNumber(1, MOST_TIMES));
+                int times = takeNumber(1, MOST_TIMES);
+                text.setMark(Text.TIMES, times);
+                if (times == NONE) {
+                    fail();
+                }
             }
             text.setMark(Text.TEST, text.size);
             if (take(IF)) {
@@ -1291,11 +1295,13 @@ public final class CarpetHalls {
                 turned = !turned;
             }
             if (seenToken() == '(') {
-                openBracket();
-                if (fault == NONE) {
+                if (openBracket()) {
                     readTest();
+                    brackets--;
                 }
-                closeBracket(')');
+                if (!take(')')) {
+                    fail();
+                }
             } else {
                 readSum();
                 int code = take('<') ? Text.LESS : take('>') ? Text.MORE : take('=') ? Text.SAME : NONE;
@@ -1311,20 +1317,14 @@ public final class CarpetHalls {
             }
         }
 
-        private void openBracket() {
+        /** Whether one more may be open; if not, it is not taken, and so it is the FAULT. */
+        private boolean openBracket() {
             if (brackets >= MOST_BRACKETS) {
-                fail();
-            } else {
-                brackets++;
-                at++;
+                return false;
             }
-        }
-
-        private void closeBracket(int sign) {
-            brackets--;
-            if (!take(sign)) {
-                fail();
-            }
+            brackets++;
+            at++;
+            return true;
         }
 
         /** A "+" or "-" is reckoned once the term behind it is whole: at the next of them, or at the end. */
@@ -1363,11 +1363,13 @@ public final class CarpetHalls {
         private void readPart() {
             int token = seenToken();
             if (token == '[') {
-                openBracket();
-                if (fault == NONE) {
+                if (openBracket()) {
                     readSum();
+                    brackets--;
                 }
-                closeBracket(']');
+                if (!take(']')) {
+                    fail();
+                }
                 return;
             }
             if (parts >= MOST_PARTS) {
@@ -1375,31 +1377,29 @@ public final class CarpetHalls {
                 return;
             }
             parts++;
-            if (token >= NUMBER) {
-                text.add(needNumber(0, MOST_NUMBER));
-                return;
+            int code = token >= NUMBER ? takeNumber(0, MOST_NUMBER) : ofOrders ? orderCode(token) : lawCode(token);
+            at += code != NONE && token < NUMBER ? 1 : 0;
+            if (ofOrders && (token == PILE_WORD || token == LAID_WORD)) {
+                int carpet = takeNumber(0, MOST_CARPETS - 1);
+                code = carpet == NONE ? NONE : code + carpet;
             }
-            int place = ofOrders ? orderPlace(token) : lawPlace(token);
-            if (place == NONE) {
+            if (code == NONE) {
                 fail();
-                return;
             }
-            at++;
-            if (ofOrders && (place == PILE_OF || place == LAID_OF)) {
-                place += needNumber(0, MOST_CARPETS - 1);
-            }
-            text.add(Text.WORD + place);
+            text.add(code);
         }
 
-        private static int lawPlace(int token) {
-            return token >= CARPET_WORD && token <= MOOD_WORD ? token - CARPET_WORD : NONE;
-        }
-
-        private static int orderPlace(int token) {
+        /** A word's code, or NONE; the last two of orders have a code for each carpet, of which this is the first. */
+        private static int orderCode(int token) {
             if (token >= DONE_WORD && token <= PAID_WORD) {
-                return DONE + token - DONE_WORD;
+                return Text.WORD + DONE + token - DONE_WORD;
             }
-            return token == YEAR_WORD ? THIS_YEAR : token == PILE_WORD ? PILE_OF : token == LAID_WORD ? LAID_OF : NONE;
+            return token == YEAR_WORD ? Text.WORD + THIS_YEAR : token == PILE_WORD ? Text.WORD + PILE_OF
+                    : token == LAID_WORD ? Text.WORD + LAID_OF : NONE;
+        }
+
+        private static int lawCode(int token) {
+            return token >= CARPET_WORD && token <= MOOD_WORD ? Text.WORD + token - CARPET_WORD : NONE;
         }
     }
 
@@ -1478,11 +1478,12 @@ public final class CarpetHalls {
                 }
                 if (code == Text.AND || code == Text.OR) {
                     i++;
-                    if ((stack[top - 1] != 0) == (code == Text.OR)) {
-                        i = i < text.size ? Math.max(i, text.code[i] - 1) : i;
-                    } else {
-                        top--;
+                    boolean isKnown = (stack[top - 1] != 0) == (code == Text.OR);
+                    // Forward alone, so that the loop has its end.
+                    if (isKnown && i < text.size && text.code[i] - 1 > i) {
+                        i = text.code[i] - 1;
                     }
+                    top -= isKnown ? 0 : 1;
                     continue;
                 }
                 top -= code < Text.NOT ? 1 : 0;

@@ -1,3 +1,5 @@
+import java.io.PrintWriter;
+import java.io.StringWriter;
 import java.lang.reflect.Constructor;
 import java.lang.reflect.Field;
 import java.lang.reflect.Method;
@@ -5,10 +7,16 @@ import java.lang.reflect.Modifier;
 import java.nio.charset.StandardCharsets;
 import java.nio.file.Files;
 import java.nio.file.Path;
+import java.util.ArrayList;
+import java.util.HashMap;
+import java.util.List;
+import java.util.Map;
 import java.util.Random;
+import java.util.Set;
 import java.util.TreeSet;
 import java.util.regex.Matcher;
 import java.util.regex.Pattern;
+import java.util.spi.ToolProvider;
 
 /** The rules of LANGUAGE.md that a test can see: the face, the words of the source, no throw, few objects. */
 public final class RulesTest {
@@ -102,6 +110,66 @@ public final class RulesTest {
                 to++;
             }
             check(to - i < 60, "rule 11: a long method at line " + (i + 1));
+        }
+    }
+
+    // ---- rule 11: how deep calls go
+
+    /** Who calls whom, by the class files; the library's functions count as calls, too. */
+    private static Map<String, Set<String>> callsByMethod() throws Exception {
+        ToolProvider javap = ToolProvider.findFirst("javap").orElseThrow();
+        Path classes = Path.of(CarpetHalls.class.getProtectionDomain().getCodeSource().getLocation().toURI());
+        List<String> given = new ArrayList<>(List.of("-p", "-c", "-cp", classes.toString(), "CarpetHalls"));
+        for (Class<?> inside : CarpetHalls.class.getDeclaredClasses()) {
+            given.add(inside.getName());
+        }
+        StringWriter told = new StringWriter();
+        PrintWriter out = new PrintWriter(told);
+        check(javap.run(out, out, given.toArray(new String[0])) == 0, "rule 11: javap: " + told);
+        Pattern ofClass = Pattern.compile("^[\\w ]*class (\\S+)");
+        Pattern ofMethod = Pattern.compile("^  [^ ].*?([\\w$]+)\\(.*\\);$");
+        Pattern ofCall = Pattern.compile("// (?:Interface)?Method (?:([\\w/$]+)\\.)?\"?([\\w<>]+)\"?:");
+        Map<String, Set<String>> calls = new HashMap<>();
+        String inClass = "";
+        Set<String> made = new TreeSet<>();
+        for (String line : told.toString().split("\\R")) {
+            Matcher m = ofClass.matcher(line);
+            if (m.find()) {
+                inClass = m.group(1);
+            } else if ((m = ofMethod.matcher(line)).find()) {
+                String name = m.group(1).equals(inClass) ? "<init>" : m.group(1);
+                made = calls.computeIfAbsent(inClass + "." + name, none -> new TreeSet<>());
+            } else if ((m = ofCall.matcher(line)).find()) {
+                made.add((m.group(1) == null ? inClass : m.group(1).replace('/', '.')) + "." + m.group(2));
+            }
+        }
+        return calls;
+    }
+
+    /** The longest way down in which no method comes twice. */
+    private static List<String> deepest(String method, Map<String, Set<String>> calls, Set<String> open) {
+        List<String> longest = new ArrayList<>();
+        open.add(method);
+        for (String next : calls.getOrDefault(method, Set.of())) {
+            if (open.contains(next)) {
+                continue;
+            }
+            List<String> below = deepest(next, calls, open);
+            longest = below.size() > longest.size() ? below : longest;
+        }
+        open.remove(method);
+        List<String> way = new ArrayList<>(List.of(method));
+        way.addAll(longest);
+        return way;
+    }
+
+    private static void callsGoEightDeep() throws Exception {
+        Map<String, Set<String>> calls = callsByMethod();
+        check(calls.containsKey("CarpetHalls.ways") && calls.get("CarpetHalls.ways").size() >= 2,
+                "rule 11: the calls were not found");
+        for (String method : new TreeSet<>(calls.keySet())) {
+            List<String> way = deepest(method, calls, new TreeSet<>());
+            check(way.size() <= 8, "rule 11: " + way.size() + " deep: " + way);
         }
     }
 
@@ -208,6 +276,7 @@ public final class RulesTest {
     public static void main(String[] args) throws Exception {
         faceIsTheDocuments();
         sourceKeepsToTheLanguage();
+        callsGoEightDeep();
         nothingIsEverThrown();
         callsMakeNothing();
         System.out.println(wrong == 0 ? "the rules are kept" : wrong + " rules are not kept");
